@@ -1,0 +1,60 @@
+/** What every test of the project uses: answers that are due, and texts put on the tape. */
+final class Due {
+    private static int asked = 0;
+    private static int wrong = 0;
+
+    private Due() {
+    }
+
+    static void is(String what, long got, long want) {
+        asked++;
+        if (got != want) {
+            wrong++;
+            System.out.println(what + " answered " + got + ", due is " + want);
+        }
+    }
+
+    static void fails(String what) {
+        asked++;
+        wrong++;
+        System.out.println(what);
+    }
+
+    /** Puts bytes behind the tape, by twenties, and leaves out what was put too much. */
+    static void type(DiffusingRoutes x, int... bytes) {
+        int before = x.count(6);
+        for (int i = 0; i < bytes.length; i += 20) {
+            x.feed(four(bytes, i), four(bytes, i + 4), four(bytes, i + 8), four(bytes, i + 12), four(bytes, i + 16));
+        }
+        x.end(before + bytes.length);
+    }
+
+    static void type(DiffusingRoutes x, String text) {
+        type(x, text.chars().toArray());
+    }
+
+    static int law(DiffusingRoutes x, String text) {
+        type(x, text);
+        return x.law();
+    }
+
+    static int orders(DiffusingRoutes x, String text) {
+        type(x, text);
+        return x.orders();
+    }
+
+    static int four(int[] bytes, int at) {
+        int number = 0;
+        for (int i = at; i < at + 4; i++) {
+            number = number << 8 | (i < bytes.length ? bytes[i] & 255 : ' ');
+        }
+        return number;
+    }
+
+    static void closes(String test) {
+        System.out.println(test + ": " + asked + " answers, " + wrong + " not as due");
+        if (asked == 0 || wrong != 0) {
+            System.exit(1);
+        }
+    }
+}
