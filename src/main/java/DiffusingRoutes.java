@@ -1119,7 +1119,8 @@ public final class DiffusingRoutes {
 
         private static final int MOST_RANK = 99;
         private static final int MOST_VALUE = 1000000000;
-        private static final int BROKEN = Integer.MIN_VALUE;
+        // Beyond every value that is not broken.
+        private static final int BROKEN = 2000000000;
 
         private final int[] facts = new int[WORDS];
         // Three stand open at most within each of eight brackets and around them.

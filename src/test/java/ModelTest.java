@@ -46,10 +46,14 @@ public final class ModelTest {
     private void runs(int style) {
         if (style == 1) {
             meshes();
+        } else if (style == 3) {
+            stars();
         }
         for (int call = 0; call < 250 && !differs; call++) {
             if (style == 1 && chance(15)) {
                 crowds();
+            } else if (style == 3 && chance(15)) {
+                swings();
             } else {
                 acts(style);
             }
@@ -79,6 +83,35 @@ public final class ModelTest {
         }
         types(text.toString());
         same("orders() of " + text, x.orders(), m.orders());
+    }
+
+    /** 1 is next to the goal, the others are around it: what 1 has goes to all. */
+    private void stars() {
+        StringBuilder bytes = new StringBuilder().append((char) 0).append((char) 1).append((char) 5);
+        for (int one = 2; one < 7; one++) {
+            bytes.append((char) 1).append((char) one).append((char) (10 + upTo(5)));
+            for (int other = 2; other < one; other++) {
+                bytes.append((char) one).append((char) other).append((char) (chance(50) ? 0 : 50));
+            }
+        }
+        types(bytes.toString());
+        same("row()", x.row(), m.row());
+        for (int i = 0; i < 6; i++) {
+            types("step times 20 if waits > 0");
+            same("orders()", x.orders(), m.orders());
+        }
+        types("ranks from % 2 * 9");
+        same("law()", x.law(), m.law());
+    }
+
+    /** Nearly nothing changes, so all stay passive and many updates wait. */
+    private void swings() {
+        for (int i = upTo(8); i >= 0; i--) {
+            String first = m.between(0, 1, 0) == 5 ? "6 - done % 2" : "5 + done % 2";
+            String text = "link 0 to 1 as " + first + " times " + (1 + upTo(20));
+            types(text);
+            same("orders() of " + text, x.orders(), m.orders());
+        }
     }
 
     private void types(String text) {
