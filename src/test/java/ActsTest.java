@@ -11,11 +11,16 @@ public final class ActsTest {
         alone();
         goal();
         worse();
+        worseButFeasible();
+        worseAndAlone();
+        worseByUpdate();
+        farOneAnswers();
         owedBySuccessor();
         cut();
         lateReply();
         waysKeepTheirOrder();
         ranksLeastFirst();
+        ranksByWhatIsThen();
         timeStays();
         noRoomForLink();
         noRoomForStep();
@@ -181,6 +186,9 @@ public final class ActsTest {
         Due.is("nearer is not worse", x.router(2, 6), 0);
         x.link(1, 2, 20);
         routerIs("its successor is farther now", x, 2, 11, 11, 1, 1, 10, 0, 1);
+        x.undo();
+        Due.is("undone it is not worse", x.router(2, 6), 0);
+        x.link(1, 2, 20);
         steps(x, 1, 1, 2);
         Due.is("1 answered", x.router(2, 4), 8);
         routerIs("3 asks, too", x, 3, 12, 12, 2, 1, 4, 4, 0);
@@ -192,6 +200,62 @@ public final class ActsTest {
         rest(x);
         routerIs("at last by 1", x, 2, 21, 21, 1, 0);
         routerIs("at last by 2", x, 3, 22, 22, 2, 0);
+    }
+
+    private static void worseButFeasible() {
+        DiffusingRoutes x = row();
+        x.link(1, 2, 10);
+        x.link(1, 2, 20);
+        x.link(1, 2, 5);
+        routerIs("worse it stays", x, 2, 11, 11, 1, 1, 10, 0, 1);
+        steps(x, 1, 1, 2, 1, 2, 2);
+        routerIs("1 is feasible and the least", x, 2, 6, 6, 1, 0, 0, 0, 0);
+        Due.is("both are told", x.count(2), 2);
+        messageIs("both are told", x, 0, 0, 2, 1, 6);
+        messageIs("both are told", x, 1, 0, 2, 3, 6);
+    }
+
+    private static void worseAndAlone() {
+        DiffusingRoutes x = new DiffusingRoutes();
+        x.link(0, 1, 5);
+        x.link(1, 2, 3);
+        rest(x);
+        x.link(0, 1, 9);
+        steps(x, 0, 0);
+        routerIs("2 asks its successor", x, 2, 12, 12, 1, 1, 2, 0, 0, 2);
+        x.link(1, 2, 0);
+        routerIs("it goes active again and ends at once", x, 2, 9999, 9999, -1, 0, 0, 0, 0, 0);
+        Due.is("none is active", x.count(1), 0);
+        x.link(2, 0, 4);
+        rest(x);
+        routerIs("and begins anew", x, 2, 4, 4, 0, 0, 0, 0, 0, 1);
+    }
+
+    private static void worseByUpdate() {
+        DiffusingRoutes x = row();
+        x.link(1, 2, 10);
+        x.cut(2);
+        x.link(1, 2, 0);
+        steps(x, 1);
+        routerIs("3 asks 2", x, 3, 12, 12, 2, 1, 4, 4, 0);
+        steps(x, 0);
+        routerIs("its successor has told more", x, 3, 12, 12, 2, 1, 4, 4, 1);
+    }
+
+    private static void farOneAnswers() {
+        DiffusingRoutes x = new DiffusingRoutes();
+        x.link(0, 1, 5);
+        x.link(1, 2, 3);
+        rest(x);
+        x.link(0, 1, 9);
+        steps(x, 0, 0);
+        x.cut(2);
+        x.link(0, 1, 0);
+        steps(x, 1, 0, 1);
+        Due.is("two replies wait", x.count(2), 2);
+        messageIs("of the active one", x, 0, 2, 1, 2, 9999);
+        messageIs("of the one to which all is FAR", x, 1, 2, 2, 1, 9999);
+        routerIs("which stays as it is", x, 2, 9999, 9999, -1, 0, 0, 0, 0);
     }
 
     private static void owedBySuccessor() {
@@ -277,6 +341,24 @@ public final class ActsTest {
         messageIs("without a law the eldest", x, 0, 0, 2, 1);
     }
 
+    /** Nothing is looked at in between: each step asks anew how late it is and how many wait. */
+    private static void ranksByWhatIsThen() {
+        String[] laws = {"ranks from if time < 1;ranks 9 - from if time > 0", "ranks from if waits > 5;ranks 9 - from if waits < 6"};
+        for (String law : laws) {
+            DiffusingRoutes x = new DiffusingRoutes();
+            Due.law(x, law);
+            x.link(3, 4, 3);
+            x.link(1, 2, 3);
+            x.link(5, 6, 3);
+            x.force(0);
+            x.step();
+            x.step();
+            Due.is("from 1 first", x.between(1, 2, 4), 0);
+            Due.is("then from 6", x.between(6, 5, 4), 0);
+            Due.is("the others wait", x.count(2), 4);
+        }
+    }
+
     private static void timeStays() {
         DiffusingRoutes x = new DiffusingRoutes();
         x.terms(0, 998);
@@ -319,6 +401,7 @@ public final class ActsTest {
         Due.is("400 are not too many", x.count(2), 400);
         Due.is("no room", x.link(2, 5, 1), -5);
         Due.is("no new link", x.between(2, 5, 0), 0);
+        Due.is("sixteen can be undone", x.count(5), 16);
         Due.is("orders can't be then", Due.orders(x, "link 2 to 5 as 1"), -3);
         Due.type(x, 2, 5, 1, 2, 4, 0);
         Due.is("a row goes on behind it", x.row(), 1);
@@ -346,6 +429,11 @@ public final class ActsTest {
         x.force(-1);
         Due.is("the eldest goes to the goal", x.step(), 0);
         Due.is("one less", x.count(2), 399);
+        for (int i = 0; i < 16; i++) {
+            x.undo();
+        }
+        Due.is("what is refused takes nothing of what can be undone", x.count(2), 12 + 6 * 51);
+        Due.is("no more", x.undo(), -3);
     }
 
     private static void noRoomForCut() {

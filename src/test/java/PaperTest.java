@@ -6,6 +6,7 @@ public final class PaperTest {
     public static void main(String[] args) {
         quiet();
         longQuiet();
+        fullQuiet();
         compare();
         few();
         draws();
@@ -79,6 +80,24 @@ public final class PaperTest {
         }
         Due.is("quiet", x.count(2), 0);
         Due.is("time stays at its most", x.count(13), 999);
+    }
+
+    /** 400 wait, and 400 behind the first step, too. */
+    private static void fullQuiet() {
+        DiffusingRoutes x = new DiffusingRoutes();
+        x.link(0, 1, 5);
+        x.step();
+        for (int r = 2; r < 6; r++) {
+            x.link(1, r, 10);
+        }
+        for (int i = 0; i < 78; i++) {
+            x.link(0, 1, 6 - i % 2);
+        }
+        Due.is("all wait", x.count(2), 400);
+        Due.law(x, "ranks 1;ranks 0 if to = 2");
+        x.force(0);
+        Due.is("each of four answers each of 79", x.quiet(), 400 + 4 * 79);
+        Due.is("then", x.then(5), 15);
     }
 
     private static void compare() {

@@ -96,7 +96,8 @@ public final class SeenTest {
         Due.is("two are left", x.ask(1), 2);
         Due.is("no such what", x.ask(2), -1);
         Due.is("no such what", x.ask(-1), -1);
-        Due.is("a new one", new DiffusingRoutes().ask(1), 7);
+        Due.is("all are alike in all", new DiffusingRoutes().ask(0), 0);
+        Due.is("all are left", new DiffusingRoutes().ask(1), 7);
     }
 
     private static void image() {
@@ -146,6 +147,12 @@ public final class SeenTest {
         x.seen(1, 1);
         x.back(0);
         Due.is("as kept anew", x.count(3), 0);
+        x.seen(0, 2);
+        x.image(0);
+        x.forget();
+        x.seen(3, 1);
+        x.back(0);
+        Due.is("what was seen, not only how often", x.canBe(), 2 | 8 | 32);
     }
 
     private static void imagesKeepLaws() {

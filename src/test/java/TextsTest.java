@@ -62,7 +62,10 @@ public final class TextsTest {
         faultOf(false, "ranks", 5);
         faultOf(false, "ranks  ", 7);
         faultOf(false, "Ranks 1", 0);
-        faultOf(false, "ranksx 1", 0);
+        faultOf(false, "ranksz 1", 0);
+        faultOf(false, "ranks{ 1", 5);
+        faultOf(false, "ranks` 1", 5);
+        faultOf(false, "ranks 1:", 7);
         faultOf(false, " rank 1", 1);
         faultOf(false, "step", 0);
         faultOf(false, "ranks 1001", 6);
