@@ -635,7 +635,7 @@ public final class DiffusingRoutes {
                     alike++;
                 }
             }
-            // Those that it can't be only count others of their own kind, which is never too many.
+            // For one that it can't be this counts those among the rest that are alike: never more than their own group.
             most = Math.max(most, alike);
         }
         return most;
