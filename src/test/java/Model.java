@@ -638,7 +638,7 @@ final class Model {
             return -1;
         }
         Message m = net.messages.get(i);
-        return new int[] {m.kind, m.from, m.to, m.distance, rank(net, forced(), m)}[what];
+        return what == 4 ? rank(net, forced(), m) : new int[] {m.kind, m.from, m.to, m.distance}[what];
     }
 
     int terms(int what, int value) {
@@ -841,11 +841,15 @@ final class Model {
 
     private Message first(Net n, List<Clause> law) throws Refused {
         Message best = null;
-        for (int i = 0; i < n.messages.size(); i++) {
-            Message m = n.messages.get(i);
-            boolean firstOfWay = n.messages.subList(0, i).stream().noneMatch(o -> o.from == m.from && o.to == m.to);
-            if (firstOfWay && (best == null || rank(n, law, m) < rank(n, law, best))) {
+        int least = 0;
+        boolean[][] met = new boolean[7][7];
+        for (Message m : n.messages) {
+            boolean firstOfWay = !met[m.from][m.to];
+            met[m.from][m.to] = true;
+            int rank = firstOfWay ? rank(n, law, m) : 0;
+            if (firstOfWay && (best == null || rank < least)) {
                 best = m;
+                least = rank;
             }
         }
         if (best == null) {
@@ -937,21 +941,20 @@ final class Model {
     }
 
     int least(int r) {
-        return isRouter(r) ? least(r, new TreeSet<>()) : -1;
+        return isRouter(r) ? least(r, 0) : -1;
     }
 
-    private int least(int r, TreeSet<Integer> been) {
+    /** Over all ways that meet none of those that were met. */
+    private int least(int r, int met) {
         if (r == 0) {
             return 0;
         }
         int best = FAR;
-        been.add(r);
-        for (int o : net.neighbours(r)) {
-            if (!been.contains(o)) {
-                best = Math.min(best, least(o, been) + net.cost[r][o]);
+        for (int o = 0; o < 7; o++) {
+            if (net.cost[r][o] > 0 && (met >> o & 1) == 0) {
+                best = Math.min(best, least(o, met | 1 << r) + net.cost[r][o]);
             }
         }
-        been.remove(r);
         return best;
     }
 
