@@ -28,7 +28,11 @@ final class Due {
 
     /** Puts bytes behind the tape, by twenties, and leaves out what was put too much. */
     static void type(DiffusingRoutes x, int... bytes) {
-        int before = x.count(6);
+        put(x, x.count(6), bytes);
+    }
+
+    /** As type(), but with no call to look how many bytes the tape has: an object is used for 512 calls alone. */
+    static void put(DiffusingRoutes x, int before, int... bytes) {
         for (int i = 0; i < bytes.length; i += 20) {
             x.feed(four(bytes, i), four(bytes, i + 4), four(bytes, i + 8), four(bytes, i + 12), four(bytes, i + 16));
         }

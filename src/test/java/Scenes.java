@@ -84,8 +84,9 @@ final class Scenes {
         int first = 1;
         for (int round = 1; round <= 49; round++) {
             int last = around(first + 4);
-            Due.orders(x, "step times 20 if distance " + last + ">999*10");
-            Due.type(x, round == 1 ? 0 : around(first + 5), first, 0, first, around(first + 1), 0,
+            Due.put(x, 0, ("step times 20 if distance " + last + ">999*10").chars().toArray());
+            x.orders();
+            Due.put(x, 0, round == 1 ? 0 : around(first + 5), first, 0, first, around(first + 1), 0,
                 around(first + 1), around(first + 2), 0, around(first + 2), around(first + 3), 0,
                 last, around(last + 1), 50, around(last + 1), around(last + 2), 50,
                 around(last + 2), around(last + 3), round == 49 ? 0 : 50, around(last + 3), around(last + 4), round == 49 ? 0 : 50);
@@ -95,6 +96,29 @@ final class Scenes {
         Due.orders(x, "step times 20 if distance 1>999*10");
         routerIs("so far", x, 6, 9900, 9900, 5, 0);
         routerIs("so far", x, 1, 9950, 9950, 6, 0);
+        return x;
+    }
+
+    /** Nothing waits, though 1 waits for 3, 3 for 1 and 2 for 1: 1 owes 2 and 3 a reply, 3 owes 1 one. */
+    static DiffusingRoutes stuck() {
+        DiffusingRoutes x = new DiffusingRoutes();
+        x.link(0, 1, 8);
+        rest(x);
+        x.link(2, 0, 7);
+        rest(x);
+        x.link(3, 1, 2);
+        rest(x);
+        x.link(0, 1, 13);
+        x.link(1, 2, 6);
+        steps(x, 1);
+        x.cut(1);
+        x.link(2, 1, 20);
+        steps(x, 1, 0, 0, 2);
+        x.link(1, 0, 0);
+        steps(x, 0, 0, 1, 0, 0, 0, 0, 0, 0);
+        x.link(0, 2, 0);
+        steps(x, 1, 1, 1, 2);
+        Due.is("nothing waits", x.count(2), 0);
         return x;
     }
 
