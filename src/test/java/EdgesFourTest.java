@@ -105,14 +105,17 @@ public final class EdgesFourTest {
         Due.is("no way", x.least(3), 9999);
         Due.is("no way", x.least(1), 9999);
         Due.is("a way", x.least(4), 150);
-        DiffusingRoutes y = new DiffusingRoutes();
-        for (int one = 0; one < 7; one++) {
-            for (int other = one + 1; other < 7; other++) {
-                y.link(one, other, other == one + 1 ? 1 : 50);
+        int[][] rows = {{0, 1, 2, 3, 4, 5, 6}, {0, 6, 5, 4, 3, 2, 1}, {0, 3, 6, 2, 5, 1, 4}};
+        for (int[] row : rows) {
+            DiffusingRoutes y = new DiffusingRoutes();
+            for (int i = 0; i < 7; i++) {
+                for (int k = i + 1; k < 7; k++) {
+                    y.link(row[i], row[k], k == i + 1 ? 1 : 50);
+                }
             }
-        }
-        for (int r = 0; r < 7; r++) {
-            Due.is("many small ones", y.least(r), r);
+            for (int i = 0; i < 7; i++) {
+                Due.is("many small ones", y.least(row[i]), i);
+            }
         }
     }
 
@@ -296,6 +299,13 @@ public final class EdgesFourTest {
         x.seen(3, 1);
         Due.is("it can be none", x.ask(0), -1);
         Due.is("it can be none", x.ask(1), -1);
+        DiffusingRoutes star = new DiffusingRoutes();
+        for (int r = 1; r < 7; r++) {
+            star.link(0, r, r);
+        }
+        star.seen(0, 6);
+        Due.is("the goal alone: the lowest fact", star.ask(0), 0);
+        Due.is("one is left, though no other one is like it", star.ask(1), 1);
         x.forget();
         for (int what : new int[] {-1, 2, Integer.MIN_VALUE, Integer.MAX_VALUE}) {
             Due.is("no such what", x.ask(what), -1);

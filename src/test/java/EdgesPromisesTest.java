@@ -22,6 +22,7 @@ public final class EdgesPromisesTest {
         force();
         linkStepCut();
         undoSixteen();
+        undoBehindRefusals();
         undoWhatItRestores();
         undoWhatEndsIt();
         path();
@@ -376,6 +377,28 @@ public final class EdgesPromisesTest {
         }
         Due.is("the first of them stays", x.between(1, 2, 0), 1);
         Due.is("there is none", x.undo(), -3);
+    }
+
+    private static void undoBehindRefusals() {
+        Due.about("Promise 18: 16 are kept");
+        DiffusingRoutes x = Scenes.crowded(396);
+        String before = Scenes.looks(x);
+        x.link(3, 5, 1);
+        x.link(4, 5, 1);
+        for (int i = 0; i < 14; i++) {
+            x.link(3, 5, 2 + i);
+        }
+        Due.is("400 wait", x.count(2), 400);
+        Due.is("sixteen", x.count(5), 16);
+        Due.is("no room", x.link(4, 6, 1), -5);
+        Due.is("orders that can't be", Due.orders(x, "link 3 to 5 as 30+done times 20;link 4 to 6 as 1"), -3);
+        x.days(77, 60);
+        x.quiet();
+        Due.is("sixteen yet", x.count(5), 16);
+        for (int i = 0; i < 16; i++) {
+            Due.is("undone", x.undo(), 0);
+        }
+        Scenes.same("sixteen acts ago", x, before);
     }
 
     private static void undoWhatItRestores() {

@@ -23,6 +23,8 @@ public final class EdgesTwoTest {
         divided();
         cutTowardsZero();
         onlyIfItMatters();
+        nots();
+        manyTexts();
         lawsAtMost();
         ranked();
         rankedByTheLast();
@@ -120,6 +122,16 @@ public final class EdgesTwoTest {
         lawFault("bars if1=1or 2=2and 3=3", -1);
         lawFault("bars if not1=1", -1);
         lawFault("bars ifnot 1=1", 5);
+        String[] laws = {"ranks 1", "bars", "bars if 1=1", "bars if not 1=1", "bars if 1=1 or 1=1", "bars if 1=1 and 1=1",
+            "ranks kind", "ranks from", "ranks to", "ranks far", "ranks waits", "ranks time", "ranks mood"};
+        for (String law : laws) {
+            nearlyWords(false, law);
+        }
+        String[] orders = {"step if 1=2", "step times 2 if 1=2", "cut 1 if 1=2", "link 1 to 2 as 3 if 1=2", "step if time<0",
+            "step if done<0", "step if latest>9", "step if waits<0", "step if distance 1<0", "step if active 1<0"};
+        for (String text : orders) {
+            nearlyWords(true, text);
+        }
         lawFault("Bars", 0);
         lawFault("bARS", 0);
         lawFault("barS", 0);
@@ -133,6 +145,24 @@ public final class EdgesTwoTest {
         ordersFault("linking 1 to 2 as 3", 0);
         ordersFault("cut distance1", -1);
         ordersFault("cut active0+distance6", -1);
+    }
+
+    /** Each word of a text with one letter changed, left out or put in can't go on there. */
+    private static void nearlyWords(boolean orders, String text) {
+        faultOf(orders, text, -1);
+        for (int at = 0; at < text.length(); at++) {
+            if (text.charAt(at) < 'a') {
+                continue;
+            }
+            int start = at;
+            while (start > 0 && text.charAt(start - 1) >= 'a') {
+                start--;
+            }
+            // No word has a q, so this is none.
+            faultOf(orders, text.substring(0, at) + 'q' + text.substring(at + 1), start);
+            faultOf(orders, text.substring(0, at) + 'q' + text.substring(at), start);
+            faultOf(orders, text.substring(0, at + 1) + 'q' + text.substring(at + 1), start);
+        }
     }
 
     private static void rowsOfDigits() {
@@ -399,6 +429,47 @@ public final class EdgesTwoTest {
         rankIs("ranks 3;ranks 5 if (1=2 and 1/0=1) or 1/0=1", 3);
         rankIs("ranks 3;ranks 5 if not(1=2 or 1=2) and not(1=2 and 1%0=0)", 5);
         ranIs("step if 1=1 or 1/0=1;step if 1=2 and 1/0=1;step if 1=2 or 1/0=1", 1);
+    }
+
+    private static void nots() {
+        Due.about("PLAIN: \"not\" PLAIN | \"(\" TEST \")\" | SUM (\"<\" | \">\" | \"=\") SUM");
+        for (int n = 0; n < 9; n++) {
+            rankIs("ranks 3;ranks 5 if " + "not ".repeat(n) + "1=1", n % 2 == 0 ? 5 : 3);
+            rankIs("ranks 3;ranks 5 if " + "not ".repeat(n) + "1=2", n % 2 == 0 ? 3 : 5);
+            rankIs("ranks 3;ranks 5 if " + "not(".repeat(n) + "1=1" + ")".repeat(n), n % 2 == 0 ? 5 : 3);
+        }
+        rankIs("ranks 3;ranks 5 if not 1=1 and 1=1", 3);
+        rankIs("ranks 3;ranks 5 if not(1=1)and 1=1", 3);
+        rankIs("ranks 3;ranks 5 if not 1=2 and 1=2", 3);
+        rankIs("ranks 3;ranks 5 if not(1=2 and 1=2)", 5);
+        rankIs("ranks 3;ranks 5 if not 1=1 or 1=1", 5);
+        rankIs("ranks 3;ranks 5 if not(1=1 or 1=1)", 3);
+        rankIs("ranks 3;ranks 5 if not 1=2 or 1/0=1", 5);
+        rankIs("ranks 3;ranks 5 if 1=1 or 1=1 and 1=2", 5);
+        rankIs("ranks 3;ranks 5 if (1=1 or 1=1) and 1=2", 3);
+        rankIs("ranks 3;ranks 5 if 1<1 or 1>1", 3);
+        rankIs("ranks 3;ranks 5 if 1<2 and 2>1 and 2=2", 5);
+        rankIs("ranks 3;ranks 5 if 2<1 or 1>2 or 1=2", 3);
+        rankIs("ranks 2+3*4-10/5%3", 12);
+        rankIs("ranks 20-5-3", 12);
+        rankIs("ranks 20-[5-3]", 18);
+        rankIs("ranks 40/5/2", 4);
+        rankIs("ranks [2+3]*[4-1]", 15);
+    }
+
+    private static void manyTexts() {
+        Due.about("TEXTS are on a TAPE");
+        DiffusingRoutes x = new DiffusingRoutes();
+        String dear = "link 3 to 5 as " + "1+".repeat(39) + "1 if " + "not(".repeat(4) + "1=2 or 1=1" + ")".repeat(4);
+        for (int i = 0; i < 30; i++) {
+            Due.is("as the first, so the last", Due.orders(x, dear + " and done=0"), i == 0 ? 1 : -3);
+            Due.orders(x, "bars");
+            Due.law(x, "?");
+        }
+        Due.is("it costs", x.between(5, 3, 0), 40);
+        Due.is("a law behind all these", Due.law(x, "ranks 1" + "+1".repeat(49)), 0);
+        x.force(0);
+        Due.is("it ranks", x.message(0, 4), 50);
     }
 
     private static void lawsAtMost() {
