@@ -29,33 +29,33 @@ public final class ActsTest {
         Due.closes("ActsTest");
     }
 
-    private static void steps(DiffusingRoutes x, int... kinds) {
+    private static void steps(Counted x, int... kinds) {
         for (int i = 0; i < kinds.length; i++) {
             Due.is("step " + i, x.step(), kinds[i]);
         }
     }
 
-    private static void routerIs(String when, DiffusingRoutes x, int router, int... due) {
+    private static void routerIs(String when, Counted x, int router, int... due) {
         for (int what = 0; what < due.length; what++) {
             Due.is(when + ": router(" + router + ", " + what + ")", x.router(router, what), due[what]);
         }
     }
 
-    private static void messageIs(String when, DiffusingRoutes x, int i, int... due) {
+    private static void messageIs(String when, Counted x, int i, int... due) {
         for (int what = 0; what < due.length; what++) {
             Due.is(when + ": message(" + i + ", " + what + ")", x.message(i, what), due[what]);
         }
     }
 
-    private static void rest(DiffusingRoutes x) {
+    private static void rest(Counted x) {
         for (int i = 0; i < 999 && x.count(2) > 0; i++) {
             x.step();
         }
     }
 
     /** The goal, 1, 2, 3 in a row, each link costs 1, all told. */
-    private static DiffusingRoutes row() {
-        DiffusingRoutes x = new DiffusingRoutes();
+    private static Counted row() {
+        Counted x = new Counted();
         x.link(0, 1, 1);
         x.link(1, 2, 1);
         x.link(2, 3, 1);
@@ -64,7 +64,7 @@ public final class ActsTest {
     }
 
     private static void linkAnswers() {
-        DiffusingRoutes x = new DiffusingRoutes();
+        Counted x = new Counted();
         Due.is("there was none", x.link(3, 4, 1), 0);
         Due.is("it cost", x.link(4, 3, 50), 1);
         Due.is("it is so", x.link(3, 4, 50), -3);
@@ -87,7 +87,7 @@ public final class ActsTest {
     }
 
     private static void newLink() {
-        DiffusingRoutes x = new DiffusingRoutes();
+        Counted x = new Counted();
         x.link(5, 3, 2);
         Due.is("two messages", x.count(2), 2);
         messageIs("the one told first sends first", x, 0, 0, 5, 3, 9999);
@@ -105,7 +105,7 @@ public final class ActsTest {
     }
 
     private static void lostLink() {
-        DiffusingRoutes x = row();
+        Counted x = row();
         x.link(4, 2, 9);
         x.link(1, 2, 2);
         Due.is("from 2 to 4 and back, from 2 to all", x.count(2), 5);
@@ -126,7 +126,7 @@ public final class ActsTest {
     }
 
     private static void feasible() {
-        DiffusingRoutes x = new DiffusingRoutes();
+        Counted x = new Counted();
         x.link(0, 2, 4);
         x.link(0, 3, 4);
         x.link(2, 1, 1);
@@ -142,7 +142,7 @@ public final class ActsTest {
     }
 
     private static void alone() {
-        DiffusingRoutes x = new DiffusingRoutes();
+        Counted x = new Counted();
         x.link(0, 4, 9);
         x.step();
         routerIs("by the goal", x, 4, 9, 9, 0);
@@ -153,7 +153,7 @@ public final class ActsTest {
     }
 
     private static void goal() {
-        DiffusingRoutes x = row();
+        Counted x = row();
         x.link(0, 3, 50);
         rest(x);
         x.link(1, 2, 0);
@@ -164,7 +164,7 @@ public final class ActsTest {
         messageIs("and tells the goal", x, 1, 0, 3, 0, 50);
         steps(x, 2, 0);
         routerIs("2 goes by 3", x, 2, 51, 51, 3, 0);
-        DiffusingRoutes y = new DiffusingRoutes();
+        Counted y = new Counted();
         y.link(0, 1, 1);
         y.step();
         y.link(1, 2, 1);
@@ -179,7 +179,7 @@ public final class ActsTest {
     }
 
     private static void worse() {
-        DiffusingRoutes x = row();
+        Counted x = row();
         x.link(1, 2, 10);
         routerIs("3 is the least but not feasible", x, 2, 11, 11, 1, 1, 10, 0, 0);
         x.link(1, 2, 5);
@@ -203,7 +203,7 @@ public final class ActsTest {
     }
 
     private static void worseButFeasible() {
-        DiffusingRoutes x = row();
+        Counted x = row();
         x.link(1, 2, 10);
         x.link(1, 2, 20);
         x.link(1, 2, 5);
@@ -216,7 +216,7 @@ public final class ActsTest {
     }
 
     private static void worseAndAlone() {
-        DiffusingRoutes x = new DiffusingRoutes();
+        Counted x = new Counted();
         x.link(0, 1, 5);
         x.link(1, 2, 3);
         rest(x);
@@ -232,7 +232,7 @@ public final class ActsTest {
     }
 
     private static void worseByUpdate() {
-        DiffusingRoutes x = row();
+        Counted x = row();
         x.link(1, 2, 10);
         x.cut(2);
         x.link(1, 2, 0);
@@ -243,7 +243,7 @@ public final class ActsTest {
     }
 
     private static void farOneAnswers() {
-        DiffusingRoutes x = new DiffusingRoutes();
+        Counted x = new Counted();
         x.link(0, 1, 5);
         x.link(1, 2, 3);
         rest(x);
@@ -259,7 +259,7 @@ public final class ActsTest {
     }
 
     private static void owedBySuccessor() {
-        DiffusingRoutes x = row();
+        Counted x = row();
         x.link(1, 2, 10);
         x.link(0, 1, 0);
         routerIs("1 asks 2", x, 1, 9999, 9999, 0, 1, 4, 0, 0);
@@ -274,7 +274,7 @@ public final class ActsTest {
             routerIs("all is lost", x, r, 9999, 9999, -1, 0, 0, 0, 0);
         }
         // The way from 2 to 1 is gone: nothing is owed on it.
-        DiffusingRoutes y = row();
+        Counted y = row();
         y.link(1, 2, 10);
         y.link(0, 1, 0);
         steps(y, 1, 1, 1);
@@ -284,7 +284,7 @@ public final class ActsTest {
     }
 
     private static void cut() {
-        DiffusingRoutes x = row();
+        Counted x = row();
         x.link(1, 2, 10);
         Due.is("two are out", x.cut(2), 2);
         routerIs("nobody is heard", x, 2, 9999, 9999, -1, 0, 0, 0, 0);
@@ -293,12 +293,12 @@ public final class ActsTest {
         messageIs("it tells 1", x, 2, 0, 2, 1, 9999);
         messageIs("it tells 3", x, 3, 0, 2, 3, 9999);
         Due.is("it was not a step", x.count(13), row().count(13));
-        DiffusingRoutes y = row();
+        Counted y = row();
         y.link(1, 2, 10);
         steps(y, 1, 1, 2);
         Due.is("one is out", y.cut(2), 1);
         routerIs("1 has answered", y, 2, 11, 11, 1, 0, 0, 0, 0);
-        DiffusingRoutes z = row();
+        Counted z = row();
         z.link(1, 2, 10);
         z.link(1, 2, 20);
         Due.is("worse", z.router(2, 6), 1);
@@ -307,7 +307,7 @@ public final class ActsTest {
     }
 
     private static void lateReply() {
-        DiffusingRoutes x = row();
+        Counted x = row();
         x.link(1, 2, 10);
         x.cut(2);
         steps(x, 1);
@@ -317,7 +317,7 @@ public final class ActsTest {
     }
 
     private static void waysKeepTheirOrder() {
-        DiffusingRoutes x = row();
+        Counted x = row();
         x.link(0, 1, 2);
         x.link(0, 1, 0);
         Due.is("an update and a query on one way", x.between(1, 2, 4), 2);
@@ -328,7 +328,7 @@ public final class ActsTest {
     }
 
     private static void ranksLeastFirst() {
-        DiffusingRoutes x = new DiffusingRoutes();
+        Counted x = new Counted();
         x.link(1, 2, 3);
         x.link(3, 4, 3);
         x.link(5, 6, 3);
@@ -345,7 +345,7 @@ public final class ActsTest {
     private static void ranksByWhatIsThen() {
         String[] laws = {"ranks from if time < 1;ranks 9 - from if time > 0", "ranks from if waits > 5;ranks 9 - from if waits < 6"};
         for (String law : laws) {
-            DiffusingRoutes x = new DiffusingRoutes();
+            Counted x = new Counted();
             Due.law(x, law);
             x.link(3, 4, 3);
             x.link(1, 2, 3);
@@ -360,7 +360,7 @@ public final class ActsTest {
     }
 
     private static void timeStays() {
-        DiffusingRoutes x = new DiffusingRoutes();
+        Counted x = new Counted();
         x.terms(0, 998);
         x.link(1, 2, 3);
         x.step();
@@ -373,8 +373,8 @@ public final class ActsTest {
     }
 
     /** 1 next to the goal, the others around it; 12 messages wait. */
-    private static DiffusingRoutes star() {
-        DiffusingRoutes x = new DiffusingRoutes();
+    private static Counted star() {
+        Counted x = new Counted();
         x.link(0, 1, 5);
         x.step();
         for (int r = 2; r < 7; r++) {
@@ -385,7 +385,7 @@ public final class ActsTest {
     }
 
     private static void noRoomForLink() {
-        DiffusingRoutes x = star();
+        Counted x = star();
         for (int i = 0; i < 64; i++) {
             Due.is("the goal comes and goes", x.link(0, 1, 6 - i % 2), 5 + i % 2);
         }
@@ -410,7 +410,7 @@ public final class ActsTest {
     }
 
     private static void noRoomForStep() {
-        DiffusingRoutes x = star();
+        Counted x = star();
         for (int i = 0; i < 64; i++) {
             x.link(0, 1, 6 - i % 2);
         }
@@ -437,7 +437,7 @@ public final class ActsTest {
     }
 
     private static void noRoomForCut() {
-        DiffusingRoutes x = new DiffusingRoutes();
+        Counted x = new Counted();
         x.link(0, 1, 5);
         for (int r : new int[] {2, 4, 5, 6}) {
             x.link(1, r, 10);
@@ -462,7 +462,7 @@ public final class ActsTest {
     }
 
     private static void undo() {
-        DiffusingRoutes x = row();
+        Counted x = row();
         int time = x.count(13);
         x.link(0, 1, 0);
         x.step();
@@ -481,7 +481,7 @@ public final class ActsTest {
         Due.is("it told", x.between(1, 0, 1), 0);
         Due.is("what was seen stays", x.count(3), 1);
         Due.is("the law stays", x.count(12), 0);
-        DiffusingRoutes y = new DiffusingRoutes();
+        Counted y = new Counted();
         for (int i = 1; i <= 20; i++) {
             y.link(1, 2, i);
         }

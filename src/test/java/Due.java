@@ -20,6 +20,13 @@ final class Due {
         }
     }
 
+    /** The same calls always give the same answers; there are too many of these to count them. */
+    static void repeats(long got, long want) {
+        if (got != want) {
+            fails(sentence + "the same calls once more answered " + got + ", then due is " + want);
+        }
+    }
+
     static void fails(String what) {
         asked++;
         wrong++;
@@ -27,28 +34,28 @@ final class Due {
     }
 
     /** Puts bytes behind the tape, by twenties, and leaves out what was put too much. */
-    static void type(DiffusingRoutes x, int... bytes) {
+    static void type(Counted x, int... bytes) {
         put(x, x.count(6), bytes);
     }
 
     /** As type(), but with no call to look how many bytes the tape has: an object is used for 512 calls alone. */
-    static void put(DiffusingRoutes x, int before, int... bytes) {
+    static void put(Counted x, int before, int... bytes) {
         for (int i = 0; i < bytes.length; i += 20) {
             x.feed(four(bytes, i), four(bytes, i + 4), four(bytes, i + 8), four(bytes, i + 12), four(bytes, i + 16));
         }
         x.end(before + bytes.length);
     }
 
-    static void type(DiffusingRoutes x, String text) {
+    static void type(Counted x, String text) {
         type(x, text.chars().toArray());
     }
 
-    static int law(DiffusingRoutes x, String text) {
+    static int law(Counted x, String text) {
         type(x, text);
         return x.law();
     }
 
-    static int orders(DiffusingRoutes x, String text) {
+    static int orders(Counted x, String text) {
         type(x, text);
         return x.orders();
     }

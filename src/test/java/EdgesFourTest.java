@@ -31,8 +31,8 @@ public final class EdgesFourTest {
     }
 
     /** All seven in a row, each link costs 50, all told. */
-    private static DiffusingRoutes longRow() {
-        DiffusingRoutes x = new DiffusingRoutes();
+    private static Counted longRow() {
+        Counted x = new Counted();
         Due.type(x, 0, 1, 50, 1, 2, 50, 2, 3, 50, 3, 4, 50, 4, 5, 50, 5, 6, 50);
         x.row();
         Scenes.rest(x);
@@ -41,14 +41,14 @@ public final class EdgesFourTest {
 
     private static void paths() {
         Due.about("PATH: from a ROUTER by SUCCESSORS");
-        DiffusingRoutes x = longRow();
+        Counted x = longRow();
         for (int i = 0; i <= 6; i++) {
             Due.is("the longest way without a loop", x.path(6, i), 6 - i);
         }
         Due.is("it has ended", x.path(6, 7), -1);
         x.link(0, 1, 0);
         Due.is("an active one has the successor that it had", x.path(6, 6), 0);
-        DiffusingRoutes y = Scenes.stuck();
+        Counted y = Scenes.stuck();
         Due.is("3 by 1", y.path(3, 1), 1);
         Due.is("1 by 2", y.path(3, 2), 2);
         Due.is("2 by the goal, though there is no link any more", y.path(3, 3), 0);
@@ -56,8 +56,8 @@ public final class EdgesFourTest {
     }
 
     /** 2 is cut before 1 heard that the goal is lost: 2 takes what 1 has of it. */
-    private static DiffusingRoutes looped() {
-        DiffusingRoutes x = new DiffusingRoutes();
+    private static Counted looped() {
+        Counted x = new Counted();
         x.link(0, 2, 1);
         x.step();
         x.link(2, 1, 3);
@@ -70,7 +70,7 @@ public final class EdgesFourTest {
 
     private static void loops() {
         Due.about("A LOOP: ROUTERS that come to themselves again so");
-        DiffusingRoutes x = looped();
+        Counted x = looped();
         Due.is("1 and 2", x.loops(), 6);
         for (int i = 0; i <= 7; i++) {
             Due.is("around and around", x.path(1, i), 1 + i % 2);
@@ -90,7 +90,7 @@ public final class EdgesFourTest {
 
     private static void leasts() {
         Due.about("LEAST: the least sum of what LINKS COST from a ROUTER to the GOAL");
-        DiffusingRoutes x = longRow();
+        Counted x = longRow();
         for (int r = 0; r < 7; r++) {
             Due.is("the farthest there is", x.least(r), 50 * r);
         }
@@ -107,7 +107,7 @@ public final class EdgesFourTest {
         Due.is("a way", x.least(4), 150);
         int[][] rows = {{0, 1, 2, 3, 4, 5, 6}, {0, 6, 5, 4, 3, 2, 1}, {0, 3, 6, 2, 5, 1, 4}};
         for (int[] row : rows) {
-            DiffusingRoutes y = new DiffusingRoutes();
+            Counted y = new Counted();
             for (int i = 0; i < 7; i++) {
                 for (int k = i + 1; k < 7; k++) {
                     y.link(row[i], row[k], k == i + 1 ? 1 : 50);
@@ -121,20 +121,26 @@ public final class EdgesFourTest {
 
     private static void quietAtOnce() {
         Due.about("QUIET: how many STEPS till no MESSAGE waits");
-        DiffusingRoutes x = new DiffusingRoutes();
+        Counted x = new Counted();
         Due.is("nothing waits", x.quiet(), 0);
         Due.is("then", x.then(6), 9999);
         Due.is("the goal", x.then(0), 0);
-        DiffusingRoutes y = Scenes.stuck();
+        Counted y = Scenes.stuck();
         Due.is("quiet, though three are active", y.quiet(), 0);
         Due.is("as it is", y.then(1), 27);
         x.link(5, 6, 1);
         Due.is("two", x.quiet(), 2);
+        Counted z = Scenes.row();
+        z.link(0, 1, 2);
+        Scenes.routerIs("its bound is another one", z, 1, 2, 1);
+        Due.is("the distance, not the bound", z.then(1), 2);
+        Scenes.rest(z);
+        Scenes.routerIs("its bound is another one yet", z, 1, 2, 1);
     }
 
     /** 396 wait, those from 1 come last: 396 steps and more, a few more than 999 in all. */
-    private static DiffusingRoutes longQuiet() {
-        DiffusingRoutes x = new DiffusingRoutes();
+    private static Counted longQuiet() {
+        Counted x = new Counted();
         x.link(0, 1, 5);
         for (int r = 2; r < 7; r++) {
             x.link(1, r, 10);
@@ -153,7 +159,7 @@ public final class EdgesFourTest {
 
     private static void quietAtMost() {
         Due.about("how many STEPS, 999 at most (NONE: more, or one can't be)");
-        DiffusingRoutes x = longQuiet();
+        Counted x = longQuiet();
         int steps = 66 + 66 * 5 * 4;
         for (int i = 1; i <= (steps - 1001) / 20; i++) {
             Due.orders(x, "step times 20");
@@ -172,7 +178,7 @@ public final class EdgesFourTest {
         Due.is("compared", x.compare(0), 999);
         x.step();
         Due.is("998 are left", x.quiet(), 998);
-        DiffusingRoutes y = Scenes.crowded(400);
+        Counted y = Scenes.crowded(400);
         Due.law(y, "ranks 1;ranks 0 if to=2");
         y.force(0);
         Due.is("one can't be", y.quiet(), -1);
@@ -182,7 +188,7 @@ public final class EdgesFourTest {
 
     private static void quietByWhatIsThen() {
         Due.about("(On paper:)");
-        DiffusingRoutes x = Scenes.asking();
+        Counted x = Scenes.asking();
         String before = Scenes.looks(x);
         int undone = x.count(5);
         Due.is("queries and replies", x.quiet(), 6);
@@ -194,7 +200,7 @@ public final class EdgesFourTest {
         x.few(3, 30);
         Scenes.same("on paper", x, before);
         Due.is("on paper", x.count(5), undone);
-        DiffusingRoutes y = new DiffusingRoutes();
+        Counted y = new Counted();
         y.link(0, 1, 5);
         y.terms(0, 998);
         Due.law(y, "ranks 0;ranks 1 if time=999 and from=1");
@@ -205,14 +211,14 @@ public final class EdgesFourTest {
 
     private static void compared() {
         Due.about("COMPARED: QUIET by a LAW in place of that in FORCE (NONE: none)");
-        DiffusingRoutes x = longQuiet();
+        Counted x = longQuiet();
         Due.is("one can't be in the order of age", x.compare(-1), -1);
         Due.is("the law in force stays", x.count(12), 0);
         Due.is("no such law", x.compare(1), -1);
         Due.is("no such law", x.compare(-2), -1);
         Due.is("no such law", x.compare(Integer.MAX_VALUE), -1);
         Due.is("no such law", x.compare(Integer.MIN_VALUE), -1);
-        DiffusingRoutes y = Scenes.asking();
+        Counted y = Scenes.asking();
         for (int i = 0; i < 6; i++) {
             Due.is("not yet", y.compare(i), -1);
             Due.law(y, "ranks " + i);
@@ -223,7 +229,7 @@ public final class EdgesFourTest {
 
     private static void fewOfNone() {
         Due.about("FEW: the chance, of 1,000,000,000,000 parts, that of n messages .. fewer than k do");
-        DiffusingRoutes x = new DiffusingRoutes();
+        Counted x = new Counted();
         for (int slips = 0; slips <= 10; slips++) {
             x.terms(1, slips);
             Due.is("none is sent", x.few(1, 0), WHOLE);
@@ -241,7 +247,7 @@ public final class EdgesFourTest {
 
     private static void fewCut() {
         Due.about("each part times the rest by ten and times SLIPS by ten (one more), both cut");
-        DiffusingRoutes x = new DiffusingRoutes();
+        Counted x = new Counted();
         for (int slips = 1; slips < 10; slips++) {
             x.terms(1, slips);
             long stays = WHOLE;
@@ -263,7 +269,7 @@ public final class EdgesFourTest {
 
     private static void canBe() {
         Due.about("IT CAN BE: ROUTERS of which all that was SEEN is so");
-        DiffusingRoutes x = Scenes.asking();
+        Counted x = Scenes.asking();
         Due.is("nothing was seen", x.canBe(), 127);
         x.seen(1, 1);
         Due.is("2 alone is active", x.canBe(), 4);
@@ -281,7 +287,7 @@ public final class EdgesFourTest {
 
     private static void asked() {
         Due.about("To ASK: the FACT by which of these the most that are alike are as few as can be; the lowest");
-        DiffusingRoutes x = new DiffusingRoutes();
+        Counted x = new Counted();
         Due.is("all facts are alike: the lowest", x.ask(0), 0);
         Due.is("all are left", x.ask(1), 7);
         x.link(0, 1, 1);
@@ -299,7 +305,7 @@ public final class EdgesFourTest {
         x.seen(3, 1);
         Due.is("it can be none", x.ask(0), -1);
         Due.is("it can be none", x.ask(1), -1);
-        DiffusingRoutes star = new DiffusingRoutes();
+        Counted star = new Counted();
         for (int r = 1; r < 7; r++) {
             star.link(0, r, r);
         }
@@ -318,7 +324,7 @@ public final class EdgesFourTest {
 
     private static void draws() {
         Due.about("s is the SEED (0 .. 1,000,000); a DRAW of m: s becomes (s times 1103 and 12345) modulo 1,000,003");
-        DiffusingRoutes x = new DiffusingRoutes();
+        Counted x = new Counted();
         int[] bad = {-1, 1000001, 1000003, Integer.MIN_VALUE, Integer.MAX_VALUE};
         for (int seed : bad) {
             Due.is("no such seed", x.days(seed, 1), -1);
@@ -357,7 +363,7 @@ public final class EdgesFourTest {
 
     private static void daysOfEachKind() {
         Due.about("at 0, 1 (the last DRAW) the LINK between the first two COSTS the third then (0: none), at 2 .. 6 a STEP, at 7 the first is CUT");
-        DiffusingRoutes x = Scenes.asking();
+        Counted x = Scenes.asking();
         for (int last = 0; last < 2; last++) {
             x.days(seedOf(0, 1, 11, last), 1);
             Due.is("1 goes by the goal: 11", x.drawn(1, 0), 11);
@@ -378,7 +384,7 @@ public final class EdgesFourTest {
 
     private static void daysIfTheyCanBe() {
         Due.about("each if it can be");
-        DiffusingRoutes x = Scenes.asking();
+        Counted x = Scenes.asking();
         int[] seeds = {seedOf(3, 3, 5, 0), seedOf(1, 2, 10, 1), seedOf(4, 5, 0, 0), seedOf(1, -1, -1, 7), seedOf(0, -1, -1, 7)};
         for (int seed : seeds) {
             Due.is("it can't be, so nothing comes of it", x.days(seed, 1), 2);
@@ -387,9 +393,9 @@ public final class EdgesFourTest {
         Due.law(x, "bars");
         x.force(0);
         Due.is("barred", x.days(seedOf(5, 6, 1, 0), 1), 2);
-        DiffusingRoutes y = new DiffusingRoutes();
+        Counted y = new Counted();
         Due.is("no step without a message", y.days(seedOf(-1, -1, -1, 4), 1), 0);
-        DiffusingRoutes z = Scenes.crowded(400);
+        Counted z = Scenes.crowded(400);
         Due.is("no room", z.days(seedOf(4, 5, 1, 0), 1), 400);
         int[] counts = {7, 8, 9, 10, 11};
         for (int what : counts) {
@@ -399,7 +405,7 @@ public final class EdgesFourTest {
 
     private static void daysOnPaper() {
         Due.about("DAYS with a SEED, n 1 .. 60, on paper");
-        DiffusingRoutes x = Scenes.asking();
+        Counted x = Scenes.asking();
         String before = Scenes.looks(x);
         int undone = x.count(5);
         for (int seed = 0; seed < 30; seed++) {
@@ -411,7 +417,7 @@ public final class EdgesFourTest {
 
     private static void rowsByThrees() {
         Due.about("A ROW: the TAPE's bytes by threes: two ROUTERS, what the LINK COSTS: it changes so");
-        DiffusingRoutes x = new DiffusingRoutes();
+        Counted x = new Counted();
         Due.type(x, 6, 0, 50, 0, 6, 49, 6, 0, 0, 5, 6, 1);
         Due.is("each is a change", x.row(), 4);
         Due.is("one is left", x.count(0), 1);
@@ -427,7 +433,7 @@ public final class EdgesFourTest {
         int[][] bad = {{1, 1, 1}, {7, 1, 1}, {1, 7, 1}, {255, 1, 1}, {1, 255, 1}, {1, 2, 51}, {1, 2, 255}, {1, 2, 0}, {3, 4, 5},
             {4, 3, 5}, {1}, {1, 2}, {0}, {0, 0}, {0, 0, 0}, {32, 32, 32}, {1, 2, 9}};
         for (int[] bytes : bad) {
-            DiffusingRoutes x = new DiffusingRoutes();
+            Counted x = new Counted();
             x.link(3, 4, 5);
             Due.law(x, "bars if far=9");
             x.force(0);
@@ -440,13 +446,13 @@ public final class EdgesFourTest {
             Due.is("nothing can be undone behind it", x.count(5), 0);
             Due.is("the tape is empty", x.count(6), 0);
         }
-        DiffusingRoutes y = Scenes.crowded(400);
+        Counted y = Scenes.crowded(400);
         Due.type(y, 4, 5, 1);
         Due.is("no room", y.row(), 0);
         Due.is("a blot", y.blots(), 1);
         Due.is("400 wait", y.count(2), 400);
         for (int r = 0; r < 5; r++) {
-            DiffusingRoutes x = new DiffusingRoutes();
+            Counted x = new Counted();
             int[] bytes = {1, 2, 3, 4, 5, 6, 0, 0};
             Due.type(x, java.util.Arrays.copyOf(bytes, 4 + r));
             Due.is("so many wholes", x.row(), r < 2 ? 1 : 2);
@@ -456,7 +462,7 @@ public final class EdgesFourTest {
 
     private static void rowsAtMost() {
         Due.about("A ROW: the TAPE's bytes by threes");
-        DiffusingRoutes x = new DiffusingRoutes();
+        Counted x = new Counted();
         int[] bytes = new int[400];
         for (int i = 0; i < 400; i++) {
             bytes[i] = i % 3 == 0 ? 5 : i % 3 == 1 ? 6 : i / 3 % 2 == 0 ? 1 : 2;
@@ -472,7 +478,7 @@ public final class EdgesFourTest {
     private static void imagesKeep() {
         Due.about("IMAGES 0, 1 keep all but ..");
         for (int k = 0; k < 2; k++) {
-            DiffusingRoutes x = Scenes.asking();
+            Counted x = Scenes.asking();
             Due.law(x, "ranks 7");
             x.force(0);
             x.terms(0, 900);
@@ -501,7 +507,7 @@ public final class EdgesFourTest {
 
     private static void imagesKeepNot() {
         Due.about("all but the TAPE, FAULT, BLOTS, where ORDERS stopped, what can be undone (nothing, behind back()), the latest DAYS");
-        DiffusingRoutes x = Scenes.asking();
+        Counted x = Scenes.asking();
         Due.law(x, "ranks");
         Due.type(x, 1, 1);
         x.row();
@@ -536,7 +542,7 @@ public final class EdgesFourTest {
 
     private static void imagesStay() {
         Due.about("(IMAGES stay)");
-        DiffusingRoutes x = new DiffusingRoutes();
+        Counted x = new Counted();
         x.link(1, 2, 3);
         x.image(0);
         x.link(1, 2, 4);

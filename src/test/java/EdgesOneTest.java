@@ -30,7 +30,7 @@ public final class EdgesOneTest {
     private static void noSuchRouters() {
         Due.about("ROUTERS 0 .. 6");
         for (int r : NO_ROUTERS) {
-            DiffusingRoutes x = Scenes.asking();
+            Counted x = Scenes.asking();
             x.days(5, 1);
             String before = Scenes.looks(x);
             for (int what = -1; what < 9; what++) {
@@ -54,7 +54,7 @@ public final class EdgesOneTest {
 
     private static void allRouters() {
         Due.about("ROUTERS 0 .. 6; 0 is the GOAL");
-        DiffusingRoutes x = new DiffusingRoutes();
+        Counted x = new Counted();
         x.days(0, 1);
         for (int r = 0; r < 7; r++) {
             Due.is("router(" + r + ", 0)", x.router(r, 0), r == 0 ? 0 : 9999);
@@ -75,7 +75,7 @@ public final class EdgesOneTest {
 
     private static void costs() {
         Due.about("A LINK between two of them COSTS 1 .. 50");
-        DiffusingRoutes x = new DiffusingRoutes();
+        Counted x = new Counted();
         for (int costs : new int[] {51, -1, 52, 256, -50, Integer.MAX_VALUE, Integer.MIN_VALUE}) {
             Due.is("link as " + costs, x.link(5, 6, costs), -1);
         }
@@ -94,7 +94,7 @@ public final class EdgesOneTest {
 
     private static void noLinksAtFirst() {
         Due.about("or there is none (at first)");
-        DiffusingRoutes x = new DiffusingRoutes();
+        Counted x = new Counted();
         Due.is("links", x.count(0), 0);
         Due.is("messages", x.count(2), 0);
         for (int one = 0; one < 7; one++) {
@@ -112,7 +112,7 @@ public final class EdgesOneTest {
 
     private static void farByOneThatIsFar() {
         Due.about("what would be more is FAR");
-        DiffusingRoutes x = new DiffusingRoutes();
+        Counted x = new Counted();
         for (int costs : new int[] {1, 49, 50}) {
             x.link(1, 2, costs);
             Due.is("by 2, which costs " + costs, x.between(1, 2, 2), 9999);
@@ -125,7 +125,7 @@ public final class EdgesOneTest {
 
     private static void farOfOneThatAsks() {
         Due.about("what would be more is FAR");
-        DiffusingRoutes x = Scenes.row();
+        Counted x = Scenes.row();
         x.link(0, 1, 0);
         Scenes.steps(x, 1);
         Due.is("2 heard it of its successor", x.between(2, 1, 1), 9999);
@@ -138,7 +138,7 @@ public final class EdgesOneTest {
         int[] costs = {47, 48, 49, 50};
         int[] far = {9997, 9998, 9999, 9999};
         for (int i = 0; i < costs.length; i++) {
-            DiffusingRoutes x = Scenes.nearlyFar();
+            Counted x = Scenes.nearlyFar();
             x.link(1, 2, costs[i]);
             x.step();
             Due.is("2 was told", x.between(2, 1, 1), 9950);
@@ -150,7 +150,7 @@ public final class EdgesOneTest {
 
     private static void farWithoutALink() {
         Due.about("BY a NEIGHBOUR: .. (FAR without a LINK)");
-        DiffusingRoutes x = Scenes.row();
+        Counted x = Scenes.row();
         Due.is("by the goal, no link", x.between(2, 0, 2), 9999);
         Due.is("the goal by 2, no link", x.between(0, 2, 2), 9999);
         Due.is("by 1, a link", x.between(2, 1, 2), 2);
@@ -161,7 +161,7 @@ public final class EdgesOneTest {
 
     private static void farAtFirst() {
         Due.about("(FAR at first) .. a SUCCESSOR (none at first), is PASSIVE (at first)");
-        DiffusingRoutes x = new DiffusingRoutes();
+        Counted x = new Counted();
         for (int r = 0; r < 7; r++) {
             for (int o = 0; o < 7; o++) {
                 if (r != o) {
@@ -177,7 +177,7 @@ public final class EdgesOneTest {
 
     private static void goalAlways() {
         Due.about("of the GOAL 0 always");
-        DiffusingRoutes x = Scenes.row();
+        Counted x = Scenes.row();
         x.link(0, 2, 3);
         x.link(0, 3, 9);
         x.link(0, 1, 30);
@@ -196,7 +196,7 @@ public final class EdgesOneTest {
 
     private static void ordersOfAWay() {
         Due.about("those of one WAY (from, to) wait in the order in which they were sent");
-        DiffusingRoutes x = Scenes.row();
+        Counted x = Scenes.row();
         x.link(0, 1, 2);
         x.link(0, 1, 3);
         x.link(0, 1, 4);
@@ -214,7 +214,7 @@ public final class EdgesOneTest {
 
     private static void seenAtMost() {
         Due.about("SEEN, 6 at most");
-        DiffusingRoutes x = new DiffusingRoutes();
+        Counted x = new Counted();
         for (int i = 1; i <= 6; i++) {
             Due.is("seen", x.seen(i % 4, 0), i);
         }
@@ -227,7 +227,7 @@ public final class EdgesOneTest {
 
     private static void seenFacts() {
         Due.about("a FACT (0 how many NEIGHBOURS, 1 ACTIVE (1) or not (0), 2 of how many a reply is OUT, 3 the SUCCESSOR) is n");
-        DiffusingRoutes x = new DiffusingRoutes();
+        Counted x = new Counted();
         for (int r = 1; r < 7; r++) {
             x.link(0, r, 1);
         }
@@ -249,7 +249,7 @@ public final class EdgesOneTest {
         int[] first = {0, 1, 0};
         int[] most = {999, 10, 9};
         for (int what = 0; what < 3; what++) {
-            DiffusingRoutes x = new DiffusingRoutes();
+            Counted x = new Counted();
             Due.is("at first", x.count(13 + what), first[what]);
             for (int bad : new int[] {-1, most[what] + 1, Integer.MIN_VALUE, Integer.MAX_VALUE}) {
                 Due.is("terms(" + what + ", " + bad + ")", x.terms(what, bad), -1);
@@ -267,7 +267,7 @@ public final class EdgesOneTest {
 
     private static void sets() {
         Due.about("Sets are told as bits");
-        DiffusingRoutes x = new DiffusingRoutes();
+        Counted x = new Counted();
         x.link(0, 6, 1);
         x.step();
         for (int r = 1; r < 6; r++) {
@@ -288,7 +288,7 @@ public final class EdgesOneTest {
 
     private static void firstRefusalOfLinks() {
         Due.about("The first of these in that order");
-        DiffusingRoutes x = Scenes.crowded(400);
+        Counted x = Scenes.crowded(400);
         Due.is("neither -3 nor -5 goes ahead of -1", x.link(1, 1, 0), -1);
         Due.is("no room", x.link(4, 5, 1), -5);
         Due.is("it is so goes ahead of no room", x.link(4, 5, 0), -3);
@@ -299,7 +299,7 @@ public final class EdgesOneTest {
         Due.is("a number that can't be goes ahead of barred", x.link(4, 5, 51), -1);
         Due.is("a number that can't be goes ahead of barred", x.link(4, 7, 1), -1);
         Due.is("the same router goes ahead of barred", x.link(4, 4, 1), -1);
-        DiffusingRoutes y = Scenes.crowdedAndAsking(399);
+        Counted y = Scenes.crowdedAndAsking(399);
         Due.is("no such router", y.cut(7), -1);
         Due.is("passive", y.cut(1), -3);
         Due.is("no room", y.cut(2), -5);
@@ -307,7 +307,7 @@ public final class EdgesOneTest {
 
     private static void firstRefusalOfOthers() {
         Due.about("The first of these in that order");
-        DiffusingRoutes x = new DiffusingRoutes();
+        Counted x = new Counted();
         for (int i = 0; i < 6; i++) {
             x.seen(0, 0);
             Due.law(x, "bars");
@@ -324,7 +324,7 @@ public final class EdgesOneTest {
 
     private static void refusedChangesNothing() {
         Due.about("REFUSED by");
-        DiffusingRoutes x = Scenes.asking();
+        Counted x = Scenes.asking();
         Due.law(x, "bars if far = 7");
         x.force(0);
         x.seen(0, 1);

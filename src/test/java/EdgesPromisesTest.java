@@ -40,14 +40,14 @@ public final class EdgesPromisesTest {
 
     private static void newObject() {
         Due.about("Promise 1: No links");
-        DiffusingRoutes other = Scenes.asking();
+        Counted other = Scenes.asking();
         Due.law(other, "bars");
         other.force(0);
         other.seen(0, 0);
         other.image(0);
         other.days(1, 1);
         Due.type(other, "x");
-        DiffusingRoutes x = new DiffusingRoutes();
+        Counted x = new Counted();
         Due.is("links", x.count(0), 0);
         for (int what = 1; what < 16; what++) {
             Due.is("another object is nothing to it: count(" + what + ")", x.count(what), what == 12 ? -1 : what == 14 ? 1 : 0);
@@ -61,7 +61,7 @@ public final class EdgesPromisesTest {
 
     private static void router() {
         Due.about("Promise 2: NONE");
-        DiffusingRoutes x = Scenes.stuck();
+        Counted x = Scenes.stuck();
         for (int r = -2; r < 9; r++) {
             for (int what : new int[] {-1, 8, 9, LEAST, MOST}) {
                 Due.is("router(" + r + ", " + what + ")", x.router(r, what), -1);
@@ -81,7 +81,7 @@ public final class EdgesPromisesTest {
 
     private static void between() {
         Due.about("Promise 3: NONE (one alone; others)");
-        DiffusingRoutes x = Scenes.row();
+        Counted x = Scenes.row();
         for (int what = -2; what < 8; what++) {
             for (int r = 0; r < 7; r++) {
                 Due.is("one alone", x.between(r, r, what), -1);
@@ -101,7 +101,7 @@ public final class EdgesPromisesTest {
 
     private static void message() {
         Due.about("Promise 4: Of the i-th MESSAGE that waits, the eldest first .. NONE");
-        DiffusingRoutes x = new DiffusingRoutes();
+        Counted x = new Counted();
         for (int what = -1; what < 6; what++) {
             Due.is("none waits", x.message(0, what), -1);
         }
@@ -115,14 +115,14 @@ public final class EdgesPromisesTest {
             Due.is("no such what", x.message(0, what), -1);
             Due.is("no such what", x.message(1, what), -1);
         }
-        DiffusingRoutes y = Scenes.crowded(400);
+        Counted y = Scenes.crowded(400);
         Due.is("the last of 400", y.message(399, 2) >= 0 ? 1 : 0, 1);
         Due.is("beyond", y.message(400, 2), -1);
     }
 
     private static void terms() {
         Due.about("Promise 5: A TERM: what it was. -1");
-        DiffusingRoutes x = new DiffusingRoutes();
+        Counted x = new Counted();
         for (int what : new int[] {-1, 3, 4, LEAST, MOST}) {
             for (int value : new int[] {0, 1, -1, LEAST, MOST}) {
                 Due.is("no such term", x.terms(what, value), -1);
@@ -141,7 +141,7 @@ public final class EdgesPromisesTest {
 
     private static void feed() {
         Due.about("Promise 6: Twenty bytes come behind the TAPE, four of each number, the highest first");
-        DiffusingRoutes x = new DiffusingRoutes();
+        Counted x = new Counted();
         // Three bytes each: 1-2 as 3, 4-5 as 6, and so on over the bounds of the numbers.
         Due.is("twenty", x.feed(0x01020304, 0x05060001, 0x07020408, 0x03050900, 0x06320100), 20);
         Due.is("six threes", x.row(), 6);
@@ -166,7 +166,7 @@ public final class EdgesPromisesTest {
 
     private static void end() {
         Due.about("Promise 7: The TAPE has its first n bytes alone: n. NONE, if it has not so many, or n is below 0");
-        DiffusingRoutes x = new DiffusingRoutes();
+        Counted x = new Counted();
         Due.is("nothing of nothing", x.end(0), 0);
         Due.is("one of nothing", x.end(1), -1);
         x.feed(0x72616e6b, 0x73203120, 0x3f3f3f3f, 0, 0);
@@ -187,7 +187,7 @@ public final class EdgesPromisesTest {
 
     private static void rowAndBlots() {
         Due.about("Promise 8: -6 the TAPE is empty; Promise 9: the latest row() .. that was not REFUSED (0 ahead of any)");
-        DiffusingRoutes x = new DiffusingRoutes();
+        Counted x = new Counted();
         Due.is("ahead of any", x.blots(), 0);
         Due.is("empty", x.row(), -6);
         Due.is("a refused one is none", x.blots(), 0);
@@ -206,7 +206,7 @@ public final class EdgesPromisesTest {
 
     private static void law() {
         Due.about("Promise 10: -5 (ahead of reading it; the TAPE is empty then, too); -6 (blanks alone: FAULT at the end)");
-        DiffusingRoutes x = new DiffusingRoutes();
+        Counted x = new Counted();
         x.link(1, 2, 3);
         Due.is("empty", x.law(), -6);
         Due.is("its end", x.fault(), 0);
@@ -230,7 +230,7 @@ public final class EdgesPromisesTest {
 
     private static void orders() {
         Due.about("Promise 11: how many were run. -3 one can't be; -6 (as for law())");
-        DiffusingRoutes x = new DiffusingRoutes();
+        Counted x = new Counted();
         Due.is("empty", x.orders(), -6);
         Due.is("its end", x.fault(), 0);
         Due.is("blanks alone", Due.orders(x, "  "), -6);
@@ -253,7 +253,7 @@ public final class EdgesPromisesTest {
 
     private static void fault() {
         Due.about("Promise 12: FAULT of the latest law(), orders() that read a TEXT: its place; NONE without");
-        DiffusingRoutes x = new DiffusingRoutes();
+        Counted x = new Counted();
         Due.is("ahead of any", x.fault(), -1);
         Due.law(x, "bars if");
         Due.is("of a law", x.fault(), 7);
@@ -282,7 +282,7 @@ public final class EdgesPromisesTest {
 
     private static void stopped() {
         Due.about("Promise 13: Which CLAUSE of the latest orders() could not be. NONE");
-        DiffusingRoutes x = new DiffusingRoutes();
+        Counted x = new Counted();
         Due.is("ahead of any", x.stopped(), -1);
         for (int i = 0; i < 12; i++) {
             Due.is("it can't be", Due.orders(x, "step if 1=2;".repeat(i) + "cut 1" + ";step if 1=2".repeat(11 - i)), -3);
@@ -302,7 +302,7 @@ public final class EdgesPromisesTest {
 
     private static void force() {
         Due.about("Promise 14: A LAW is in FORCE (NONE: none): which was. -2");
-        DiffusingRoutes x = new DiffusingRoutes();
+        Counted x = new Counted();
         x.link(1, 2, 3);
         Due.is("none, as before", x.force(-1), -1);
         Due.is("that is no refusal", x.status(), 0);
@@ -323,7 +323,7 @@ public final class EdgesPromisesTest {
 
     private static void linkStepCut() {
         Due.about("Promises 15, 16, 17");
-        DiffusingRoutes x = new DiffusingRoutes();
+        Counted x = new Counted();
         for (int bad : new int[] {-1, 51, LEAST, MOST}) {
             Due.is("-1 (0 .. 50)", x.link(1, 2, bad), -1);
         }
@@ -341,7 +341,7 @@ public final class EdgesPromisesTest {
         for (int r = 0; r < 7; r++) {
             Due.is("-3 it is PASSIVE", x.cut(r), -3);
         }
-        DiffusingRoutes y = Scenes.asking();
+        Counted y = Scenes.asking();
         Due.is("the kind of the MESSAGE", y.step(), 1);
         Due.is("the kind of the MESSAGE", y.step(), 1);
         Due.is("the kind of the MESSAGE", y.step(), 2);
@@ -351,7 +351,7 @@ public final class EdgesPromisesTest {
 
     private static void undoSixteen() {
         Due.about("Promise 18: The latest link(), step(), cut() (by ORDERS, too; 16 are kept) is undone .. -3 there is none");
-        DiffusingRoutes x = new DiffusingRoutes();
+        Counted x = new Counted();
         Due.is("there is none", x.undo(), -3);
         for (int i = 1; i <= 50; i++) {
             x.link(1, 2, i);
@@ -381,7 +381,7 @@ public final class EdgesPromisesTest {
 
     private static void undoBehindRefusals() {
         Due.about("Promise 18: 16 are kept");
-        DiffusingRoutes x = Scenes.crowded(396);
+        Counted x = Scenes.crowded(396);
         String before = Scenes.looks(x);
         x.link(3, 5, 1);
         x.link(4, 5, 1);
@@ -403,7 +403,7 @@ public final class EdgesPromisesTest {
 
     private static void undoWhatItRestores() {
         Due.about("Promise 18: (ROUTERS, LINKS, MESSAGES, TIME are as they were): 0 .. 2");
-        DiffusingRoutes x = Scenes.asking();
+        Counted x = Scenes.asking();
         String first = Scenes.looks(x);
         x.cut(2);
         String second = Scenes.looks(x);
@@ -432,7 +432,7 @@ public final class EdgesPromisesTest {
     private static void undoWhatEndsIt() {
         Due.about("Promise 18: (nothing that was ahead of a terms(), row(), back() that was not REFUSED can be undone)");
         for (int what = 0; what < 3; what++) {
-            DiffusingRoutes x = Scenes.asking();
+            Counted x = Scenes.asking();
             x.image(0);
             int undone = x.count(5);
             x.terms(0, 1000);
@@ -456,7 +456,7 @@ public final class EdgesPromisesTest {
             Due.is("what is behind it can be undone", x.undo(), 0);
             Due.is("and no more", x.undo(), -3);
         }
-        DiffusingRoutes y = new DiffusingRoutes();
+        Counted y = new Counted();
         y.link(1, 2, 3);
         Due.type(y, 1, 2, 4);
         y.row();
@@ -466,7 +466,7 @@ public final class EdgesPromisesTest {
 
     private static void path() {
         Due.about("Promise 19: NONE (it has ended; i beyond 7; others)");
-        DiffusingRoutes x = Scenes.row();
+        Counted x = Scenes.row();
         for (int i : new int[] {-1, 8, 9, LEAST, MOST}) {
             for (int r = -1; r < 8; r++) {
                 Due.is("no such i", x.path(r, i), -1);
@@ -488,7 +488,7 @@ public final class EdgesPromisesTest {
 
     private static void leastAndThen() {
         Due.about("Promises 21, 23: NONE (no such ROUTER)");
-        DiffusingRoutes x = Scenes.row();
+        Counted x = Scenes.row();
         for (int r : new int[] {-1, 7, LEAST, MOST}) {
             Due.is("least", x.least(r), -1);
             Due.is("then", x.then(r), -1);
@@ -500,7 +500,7 @@ public final class EdgesPromisesTest {
 
     private static void seenAndForget() {
         Due.about("Promise 24: -1 (FACT, n 0 .. 6); -5. It leaves what can be undone; Promise 25: how often there was");
-        DiffusingRoutes x = Scenes.asking();
+        Counted x = Scenes.asking();
         int undone = x.count(5);
         for (int fact : new int[] {-1, 4, LEAST, MOST}) {
             Due.is("no such fact", x.seen(fact, 0), -1);
@@ -521,7 +521,7 @@ public final class EdgesPromisesTest {
 
     private static void few() {
         Due.about("Promise 28: k 1 .. 20, n 0 .. 99. NONE");
-        DiffusingRoutes x = new DiffusingRoutes();
+        Counted x = new Counted();
         for (int k : new int[] {0, 21, -1, LEAST, MOST}) {
             for (int n : new int[] {0, 99, -1, 100}) {
                 Due.is("few(" + k + ", " + n + ")", x.few(k, n), -1);
@@ -545,7 +545,7 @@ public final class EdgesPromisesTest {
 
     private static void drawn() {
         Due.about("Promise 31: Behind the latest DAYS .. NONE (ahead of any, too)");
-        DiffusingRoutes x = Scenes.row();
+        Counted x = Scenes.row();
         for (int r = -1; r < 8; r++) {
             for (int what = -1; what < 4; what++) {
                 Due.is("ahead of any", x.drawn(r, what), -1);
@@ -576,7 +576,7 @@ public final class EdgesPromisesTest {
 
     private static void imageAndBack() {
         Due.about("Promises 32, 33: -1; -2 it was not kept");
-        DiffusingRoutes x = new DiffusingRoutes();
+        Counted x = new Counted();
         for (int k : new int[] {-1, 2, LEAST, MOST}) {
             Due.is("no such image", x.image(k), -1);
             Due.is("no such image", x.back(k), -1);
@@ -594,7 +594,7 @@ public final class EdgesPromisesTest {
 
     private static void count() {
         Due.about("Promise 34: NONE for others");
-        DiffusingRoutes x = Scenes.asking();
+        Counted x = Scenes.asking();
         for (int what : new int[] {-1, 16, 17, LEAST, MOST}) {
             Due.is("count(" + what + ")", x.count(what), -1);
         }
@@ -602,9 +602,9 @@ public final class EdgesPromisesTest {
         Due.is("active ones", x.count(1), 1);
         Due.is("messages", x.count(2), 2);
         Due.is("the law in force", x.count(12), -1);
-        DiffusingRoutes y = Scenes.stuck();
+        Counted y = Scenes.stuck();
         Due.is("active ones", y.count(1), 3);
-        DiffusingRoutes z = new DiffusingRoutes();
+        Counted z = new Counted();
         for (int one = 0; one < 7; one++) {
             for (int other = one + 1; other < 7; other++) {
                 z.link(other, one, 1);
@@ -615,7 +615,7 @@ public final class EdgesPromisesTest {
 
     private static void refusedBy() {
         Due.about("Promise 34: 7 .. 11 how many calls were REFUSED by -1, -2, -3, -5, -6 (IMAGES do not keep that)");
-        DiffusingRoutes x = new DiffusingRoutes();
+        Counted x = new Counted();
         x.image(0);
         x.link(0, 0, 0);
         x.force(0);
@@ -647,7 +647,7 @@ public final class EdgesPromisesTest {
     }
 
     /** One of the calls that are refused, by number. */
-    private static int refusedCall(DiffusingRoutes x, int call) {
+    private static int refusedCall(Counted x, int call) {
         switch (call) {
             case 0:
                 return x.terms(3, 0);
@@ -682,7 +682,7 @@ public final class EdgesPromisesTest {
         Due.about("Promise 35: What the latest call of .. was REFUSED by; 0 if it was not, or ahead of any");
         int[] by = {-1, -6, -6, -6, -2, -1, -3, -3, -3, -1, -1, -1, -2};
         for (int call = 0; call < by.length; call++) {
-            DiffusingRoutes x = new DiffusingRoutes();
+            Counted x = new Counted();
             Due.is("ahead of any", x.status(), 0);
             Due.is("the call " + call, refusedCall(x, call), by[call]);
             Due.is("status behind the call " + call, x.status(), by[call]);
@@ -690,7 +690,7 @@ public final class EdgesPromisesTest {
             x.force(-1);
             Due.is("0 if it was not", x.status(), 0);
         }
-        DiffusingRoutes x = Scenes.asking();
+        Counted x = Scenes.asking();
         int went = 0;
         for (int call = 0; call < by.length; call++) {
             x.link(0, 0, 0);
@@ -702,7 +702,7 @@ public final class EdgesPromisesTest {
     }
 
     /** One of the calls that could be refused, and is not. */
-    private static void goodCall(DiffusingRoutes x, int call) {
+    private static void goodCall(Counted x, int call) {
         if (call == 0) {
             x.terms(2, 5);
         } else if (call == 1) {
@@ -735,7 +735,7 @@ public final class EdgesPromisesTest {
 
     private static void statusStays() {
         Due.about("Promise 35: What the latest call of terms, row, law, orders, force, link, step, cut, undo, seen, days, image, back");
-        DiffusingRoutes x = Scenes.asking();
+        Counted x = Scenes.asking();
         for (int round = 0; round < 2; round++) {
             int due = round == 0 ? -1 : 0;
             int unused = round == 0 ? x.link(0, 0, 0) : x.image(0);

@@ -43,7 +43,7 @@ public final class EdgesThreeTest {
 
     private static void newLinks() {
         Due.about("If there was none, each of both sends the other one an UPDATE with its DISTANCE (the one told first sends first)");
-        DiffusingRoutes x = Scenes.row();
+        Counted x = Scenes.row();
         Due.is("there was none", x.link(3, 0, 4), 0);
         Due.is("two messages", x.count(2), 2);
         Scenes.messageIs("3 is told first", x, 0, 0, 3, 0, 3);
@@ -52,11 +52,11 @@ public final class EdgesThreeTest {
         Due.is("the goal has told 3", x.between(3, 0, 1), 9999);
         Due.is("3 has told the goal", x.between(0, 3, 1), 9999);
         Scenes.routerIs("3 stays as it is", x, 3, 3, 3, 2, 0, 0, 0, 0, 5);
-        DiffusingRoutes y = Scenes.row();
+        Counted y = Scenes.row();
         y.link(0, 3, 4);
         Scenes.messageIs("the goal is told first", y, 0, 0, 0, 3, 0);
         Scenes.messageIs("then 3", y, 1, 0, 3, 0, 3);
-        DiffusingRoutes z = Scenes.row();
+        Counted z = Scenes.row();
         z.link(6, 5, 50);
         Scenes.messageIs("6 is told first", z, 0, 0, 6, 5, 9999);
         Scenes.messageIs("then 5", z, 1, 0, 5, 6, 9999);
@@ -67,7 +67,7 @@ public final class EdgesThreeTest {
 
     private static void newLinksOnceMore() {
         Due.about("what they TOLD is FAR");
-        DiffusingRoutes x = Scenes.row();
+        Counted x = Scenes.row();
         x.link(2, 3, 0);
         Due.is("none any more", x.between(3, 2, 1), 9999);
         x.link(3, 2, 1);
@@ -81,7 +81,7 @@ public final class EdgesThreeTest {
 
     private static void changedLinks() {
         Due.about("If there was none .. If there is none any more");
-        DiffusingRoutes x = Scenes.row();
+        Counted x = Scenes.row();
         x.link(2, 3, 2);
         Due.is("it costs", x.between(2, 3, 0), 2);
         Due.is("it costs the other way, too", x.between(3, 2, 0), 2);
@@ -95,7 +95,7 @@ public final class EdgesThreeTest {
 
     private static void lostLinks() {
         Due.about("If there is none any more, all MESSAGES on it are lost, what they TOLD is FAR");
-        DiffusingRoutes x = Scenes.row();
+        Counted x = Scenes.row();
         x.link(0, 1, 2);
         x.link(0, 1, 3);
         Due.is("two on each way", x.count(2), 4);
@@ -109,7 +109,7 @@ public final class EdgesThreeTest {
         Due.is("told", x.between(0, 1, 1), 9999);
         Due.is("told", x.between(1, 0, 1), 9999);
         Due.is("to others what was told stays", x.between(1, 2, 1), 2);
-        DiffusingRoutes y = new DiffusingRoutes();
+        Counted y = new Counted();
         y.link(1, 2, 3);
         y.link(3, 4, 5);
         y.link(1, 2, 0);
@@ -119,8 +119,8 @@ public final class EdgesThreeTest {
     }
 
     /** 1 and 2 have lost the goal and wait for each other alone; 3 and 4 have told them of another way. */
-    private static DiffusingRoutes twoThatWait() {
-        DiffusingRoutes x = new DiffusingRoutes();
+    private static Counted twoThatWait() {
+        Counted x = new Counted();
         x.link(0, 1, 1);
         x.link(0, 2, 1);
         x.link(1, 2, 5);
@@ -142,7 +142,7 @@ public final class EdgesThreeTest {
     private static void firstThenOther() {
         Due.about("Then the one told first, then the other one");
         for (int first = 1; first <= 2; first++) {
-            DiffusingRoutes x = twoThatWait();
+            Counted x = twoThatWait();
             int other = 3 - first;
             Due.is("it cost", x.link(first, other, 0), 5);
             Due.is("four wait", x.count(2), 4);
@@ -155,7 +155,7 @@ public final class EdgesThreeTest {
 
     private static void neverTheGoal() {
         Due.about("(never the GOAL) takes it");
-        DiffusingRoutes x = Scenes.row();
+        Counted x = Scenes.row();
         for (int costs : new int[] {2, 1, 50, 0}) {
             x.link(0, 1, costs);
             Scenes.routerIs("the goal", x, 0, 0, 0, -1, 0, 0, 0, 0, costs == 0 ? 0 : 2);
@@ -167,33 +167,33 @@ public final class EdgesThreeTest {
 
     private static void passiveOnesDecide() {
         Due.about("If it is PASSIVE, it DECIDES for nobody");
-        DiffusingRoutes x = Scenes.row();
+        Counted x = Scenes.row();
         x.link(2, 1, 3);
         Scenes.routerIs("by 1, which is feasible", x, 2, 4, 2, 1, 0, 0, 0, 0, 10);
         Due.is("farther by a feasible one: two updates", x.count(2), 2);
         Scenes.messageIs("no reply", x, 0, 0, 2, 1, 4);
         Scenes.messageIs("no reply", x, 1, 0, 2, 3, 4);
-        DiffusingRoutes y = Scenes.asking();
+        Counted y = Scenes.asking();
         Scenes.routerIs("active it owes nobody", y, 2, 11, 11, 1, 1, 10, 0, 0, 10);
         Due.is("two queries", y.count(2), 2);
     }
 
     private static void activeOneLosesWhatIsOut() {
         Due.about("If it is ACTIVE: the LINK being gone, .. if its reply is OUT, it is no more");
-        DiffusingRoutes x = Scenes.asking();
+        Counted x = Scenes.asking();
         Due.is("to 3", x.link(2, 3, 0), 1);
         Scenes.routerIs("1 is out alone", x, 2, 11, 11, 1, 1, 2, 0, 0, 2);
         Scenes.routerIs("3 is alone", x, 3, 9999, 9999, -1, 0, 0, 0, 0, 0);
         Scenes.steps(x, 1, 2);
         Scenes.routerIs("1 has answered", x, 2, 11, 11, 1, 0, 0, 0, 0, 2);
-        DiffusingRoutes y = Scenes.asking();
+        Counted y = Scenes.asking();
         y.link(2, 3, 7);
         Due.is("a link that costs more is not gone", y.router(2, 4), 10);
     }
 
     private static void activeOneLosesWhatIsOwed() {
         Due.about("If it is ACTIVE: the LINK being gone, nothing is OWED to the other one");
-        DiffusingRoutes x = Scenes.row();
+        Counted x = Scenes.row();
         x.link(0, 1, 0);
         Scenes.steps(x, 1);
         Scenes.routerIs("2 owes 1", x, 2, 9999, 9999, 1, 1, 10, 2, 0, 10);
@@ -204,7 +204,7 @@ public final class EdgesThreeTest {
         Scenes.routerIs("1 has ended", x, 1, 9999, 9999, -1, 0, 0, 0, 0, 0);
         Scenes.rest(x);
         Scenes.routerIs("2 has ended", x, 2, 9999, 9999, -1, 0, 0, 0, 0, 8);
-        DiffusingRoutes y = Scenes.stuck();
+        Counted y = Scenes.stuck();
         y.link(1, 3, 0);
         Scenes.routerIs("to the others it is owed yet", y, 1, 9999, 9999, 2, 1, 4, 4, 0, 4);
     }
@@ -214,7 +214,7 @@ public final class EdgesThreeTest {
         int[] costs = {9, 10, 11, 0, 50, 1};
         int[] worse = {0, 0, 1, 1, 1, 0};
         for (int i = 0; i < costs.length; i++) {
-            DiffusingRoutes x = Scenes.asking();
+            Counted x = Scenes.asking();
             if (costs[i] == 10) {
                 x.link(1, 2, 9);
             }
@@ -223,7 +223,7 @@ public final class EdgesThreeTest {
             Due.is("its distance stays", x.router(2, 0), 11);
             Due.is("its bound stays", x.router(2, 1), 11);
         }
-        DiffusingRoutes x = Scenes.asking();
+        Counted x = Scenes.asking();
         x.link(2, 3, 50);
         Due.is("by 3 it is more, but that is not its successor", x.router(2, 6), 0);
         x.link(2, 3, 0);
@@ -232,7 +232,7 @@ public final class EdgesThreeTest {
 
     private static void activeOneIsNotAskedAnew() {
         Due.about("replies of all NEIGHBOURS are OUT");
-        DiffusingRoutes x = Scenes.asking();
+        Counted x = Scenes.asking();
         x.link(2, 4, 1);
         Scenes.routerIs("a neighbour that came later is not asked", x, 2, 11, 11, 1, 1, 10, 0, 0, 26);
         Scenes.messageIs("it is told", x, 2, 0, 2, 4, 11);
@@ -241,12 +241,12 @@ public final class EdgesThreeTest {
 
     private static void activeOneEnds() {
         Due.about("if no reply is OUT any more, it ENDS");
-        DiffusingRoutes x = twoThatWait();
+        Counted x = twoThatWait();
         x.link(1, 2, 6);
         Due.is("one is out yet", x.router(1, 3) + x.router(2, 3), 2);
         x.link(1, 2, 0);
         Due.is("none is", x.router(1, 3) + x.router(2, 3), 0);
-        DiffusingRoutes y = Scenes.asking();
+        Counted y = Scenes.asking();
         y.link(1, 2, 0);
         Scenes.routerIs("3 is out", y, 2, 11, 11, 1, 1, 8, 0, 1, 8);
         y.link(2, 3, 0);
@@ -255,8 +255,8 @@ public final class EdgesThreeTest {
     }
 
     /** 1 is 5 far from the goal; 2, its neighbour, so far as told; what 2 costs is 1. */
-    private static DiffusingRoutes twoWays(int far) {
-        DiffusingRoutes x = new DiffusingRoutes();
+    private static Counted twoWays(int far) {
+        Counted x = new Counted();
         x.link(0, 1, 5);
         x.link(0, 2, far);
         x.link(1, 2, 1);
@@ -268,17 +268,17 @@ public final class EdgesThreeTest {
 
     private static void feasibleIsLess() {
         Due.about("FEASIBLE is a NEIGHBOUR that TOLD less than its BOUND");
-        DiffusingRoutes x = twoWays(4);
+        Counted x = twoWays(4);
         Due.is("4 is less than 5", x.between(1, 2, 3), 1);
         x.link(0, 1, 7);
         Scenes.routerIs("it goes by 2", x, 1, 5, 5, 2, 0);
-        DiffusingRoutes y = twoWays(5);
+        Counted y = twoWays(5);
         Due.is("5 is not less than 5", y.between(1, 2, 3), 0);
         y.link(0, 1, 7);
         Scenes.routerIs("by 2 it would be 6, but that is not feasible: it asks", y, 1, 7, 7, 0, 1, 5, 0, 0, 5);
-        DiffusingRoutes z = twoWays(6);
+        Counted z = twoWays(6);
         Due.is("6 is not less than 5", z.between(1, 2, 3), 0);
-        DiffusingRoutes w = new DiffusingRoutes();
+        Counted w = new Counted();
         w.link(1, 2, 1);
         Scenes.rest(w);
         Due.is("FAR is not less than FAR", w.between(1, 2, 3), 0);
@@ -289,8 +289,8 @@ public final class EdgesThreeTest {
     }
 
     /** 3 is 5 far by 2, which is feasible; by 1, which told 5 and is not, it is 6. */
-    private static DiffusingRoutes twoThatAreAlike() {
-        DiffusingRoutes x = new DiffusingRoutes();
+    private static Counted twoThatAreAlike() {
+        Counted x = new Counted();
         x.link(0, 2, 2);
         x.link(2, 3, 3);
         x.link(0, 1, 5);
@@ -302,14 +302,14 @@ public final class EdgesThreeTest {
 
     private static void feasibleAmongAlike() {
         Due.about("If BY some FEASIBLE one is the least BY any NEIGHBOUR .. the lowest such is its SUCCESSOR");
-        DiffusingRoutes x = twoThatAreAlike();
+        Counted x = twoThatAreAlike();
         x.link(2, 3, 4);
         Due.is("by 1", x.between(3, 1, 2), 6);
         Due.is("by 2", x.between(3, 2, 2), 6);
         Scenes.routerIs("1 is lower, but 2 is feasible", x, 3, 6, 5, 2, 0);
         x.link(2, 3, 5);
         Scenes.routerIs("now 1 alone is the least", x, 3, 7, 7, 2, 1, 6, 0, 0);
-        DiffusingRoutes y = new DiffusingRoutes();
+        Counted y = new Counted();
         y.link(0, 5, 2);
         y.link(0, 4, 2);
         y.link(5, 6, 1);
@@ -323,7 +323,7 @@ public final class EdgesThreeTest {
 
     private static void boundIsNoMore() {
         Due.about("that is its DISTANCE, BOUND is no more than that");
-        DiffusingRoutes x = new DiffusingRoutes();
+        Counted x = new Counted();
         x.link(0, 1, 9);
         x.step();
         int[] costs = {20, 9, 8, 50, 1, 2};
@@ -336,12 +336,12 @@ public final class EdgesThreeTest {
 
     private static void repliesAndUpdates() {
         Due.about("it sends a REPLY to the asker, and if its DISTANCE is another one than before, an UPDATE to all other NEIGHBOURS, rising");
-        DiffusingRoutes x = Scenes.asking();
+        Counted x = Scenes.asking();
         Scenes.steps(x, 1);
         Due.is("1 is as far as before", x.router(1, 0), 1);
         Due.is("one query waits, and a reply", x.count(2), 2);
         Scenes.messageIs("the reply alone", x, 1, 2, 1, 2, 1);
-        DiffusingRoutes y = Scenes.row();
+        Counted y = Scenes.row();
         for (int r = 4; r < 7; r++) {
             y.link(3, r, 10);
         }
@@ -360,7 +360,7 @@ public final class EdgesThreeTest {
 
     private static void farOnes() {
         Due.about("Else, if its DISTANCE is FAR, and the least BY any NEIGHBOUR is, too: it has no SUCCESSOR; it sends a REPLY to the asker");
-        DiffusingRoutes x = new DiffusingRoutes();
+        Counted x = new Counted();
         x.link(0, 1, 5);
         x.link(1, 2, 3);
         Scenes.rest(x);
@@ -372,7 +372,7 @@ public final class EdgesThreeTest {
         Scenes.routerIs("2 is FAR, and so is 1", x, 2, 9999, 9999, -1, 0, 0, 0, 0, 2);
         Scenes.messageIs("it answers", x, 1, 2, 2, 1, 9999);
         Due.is("no update", x.count(2), 2);
-        DiffusingRoutes y = new DiffusingRoutes();
+        Counted y = new Counted();
         y.link(5, 6, 3);
         Scenes.steps(y, 0, 0);
         Scenes.routerIs("for nobody: it sends nothing", y, 5, 9999, 9999, -1, 0, 0, 0, 0, 64);
@@ -383,7 +383,7 @@ public final class EdgesThreeTest {
 
     private static void feasibleButFar() {
         Due.about("If BY some FEASIBLE one is the least BY any NEIGHBOUR, and not FAR");
-        DiffusingRoutes x = Scenes.nearlyFar();
+        Counted x = Scenes.nearlyFar();
         x.link(1, 2, 49);
         Scenes.steps(x, 0);
         Due.is("1 is feasible", x.between(2, 1, 3), 1);
@@ -403,7 +403,7 @@ public final class EdgesThreeTest {
 
     private static void goesActive() {
         Due.about("To GO ACTIVE: its DISTANCE is that BY its SUCCESSOR, BOUND, too; .. each is sent a QUERY, rising");
-        DiffusingRoutes x = new DiffusingRoutes();
+        Counted x = new Counted();
         x.link(0, 6, 1);
         x.step();
         for (int r = 1; r < 6; r++) {
@@ -417,7 +417,7 @@ public final class EdgesThreeTest {
         }
         Due.is("six", x.count(2), 6);
         Due.about("Else it GOES ACTIVE, owing the asker a reply");
-        DiffusingRoutes y = Scenes.row();
+        Counted y = Scenes.row();
         y.link(0, 1, 0);
         Scenes.steps(y, 1);
         Scenes.routerIs("2 owes 1, and asks it, too", y, 2, 9999, 9999, 1, 1, 10, 2, 0, 10);
@@ -427,7 +427,7 @@ public final class EdgesThreeTest {
 
     private static void endsAtOnce() {
         Due.about("without NEIGHBOURS it ENDS at once");
-        DiffusingRoutes x = Scenes.row();
+        Counted x = Scenes.row();
         x.link(3, 2, 0);
         Scenes.routerIs("3 is alone", x, 3, 9999, 9999, -1, 0, 0, 0, 0, 0);
         Due.is("nothing waits", x.count(2), 0);
@@ -436,7 +436,7 @@ public final class EdgesThreeTest {
 
     private static void endsByTheLowest() {
         Due.about("If it is not WORSE: its DISTANCE and BOUND are the least BY any NEIGHBOUR, the lowest such is its SUCCESSOR");
-        DiffusingRoutes x = Scenes.row();
+        Counted x = Scenes.row();
         x.link(0, 4, 1);
         x.link(0, 5, 1);
         Scenes.rest(x);
@@ -453,10 +453,10 @@ public final class EdgesThreeTest {
         for (int i = 0; i < 4; i++) {
             Scenes.messageIs("an update to all, rising", x, waiting + i, 0, 2, all[i], 4);
         }
-        DiffusingRoutes y = Scenes.asking();
+        Counted y = Scenes.asking();
         y.cut(2);
         Due.is("what is least may be no less than it was told", y.router(2, 0), 9999);
-        DiffusingRoutes z = Scenes.asking();
+        Counted z = Scenes.asking();
         Scenes.rest(z);
         Scenes.routerIs("bound and distance rise", z, 2, 11, 11, 1, 0);
         Scenes.routerIs("bound and distance rise", z, 3, 12, 12, 2, 0);
@@ -464,7 +464,7 @@ public final class EdgesThreeTest {
 
     private static void endsFar() {
         Due.about("the lowest such is its SUCCESSOR (none, if that is FAR)");
-        DiffusingRoutes x = Scenes.row();
+        Counted x = Scenes.row();
         x.link(0, 1, 0);
         Scenes.rest(x);
         for (int r = 1; r < 4; r++) {
@@ -475,19 +475,19 @@ public final class EdgesThreeTest {
 
     private static void endsWorse() {
         Due.about("If it is WORSE: if BY some FEASIBLE one (by BOUND as it is) is the least BY any, and not FAR, it takes that as when it DECIDES");
-        DiffusingRoutes x = Scenes.asking();
+        Counted x = Scenes.asking();
         x.link(1, 2, 20);
         x.link(1, 2, 5);
         Scenes.routerIs("worse", x, 2, 11, 11, 1, 1, 10, 0, 1);
         Scenes.steps(x, 1, 1, 2, 1, 2, 2);
         Scenes.routerIs("1 told 1, less than 11", x, 2, 6, 6, 1, 0, 0, 0, 0);
         Due.about("else it GOES ACTIVE again, owing what it owed");
-        DiffusingRoutes y = Scenes.asking();
+        Counted y = Scenes.asking();
         y.link(2, 3, 0);
         y.link(1, 2, 20);
         Scenes.steps(y, 1, 2);
         Scenes.routerIs("1 is feasible: it takes that, and its bound stays", y, 2, 21, 11, 1, 0, 0, 0, 0, 2);
-        DiffusingRoutes z = Scenes.row();
+        Counted z = Scenes.row();
         z.link(1, 2, 10);
         z.link(0, 1, 0);
         Scenes.steps(z, 1, 1, 1, 2, 1, 2, 2);
@@ -497,7 +497,7 @@ public final class EdgesThreeTest {
 
     private static void endsOwing() {
         Due.about("it sends a REPLY to all to which one is OWED, rising, and if its DISTANCE is another one than ahead of that, an UPDATE to all other NEIGHBOURS");
-        DiffusingRoutes x = Scenes.stuck();
+        Counted x = Scenes.stuck();
         Scenes.routerIs("1 owes 2 and 3", x, 1, 27, 27, 2, 1, 8, 12, 1, 12);
         Scenes.routerIs("3 owes 1", x, 3, 15, 15, 1, 1, 2, 2, 1, 2);
         Due.is("three are active, and nothing waits", x.count(1), 3);
@@ -508,7 +508,7 @@ public final class EdgesThreeTest {
         Scenes.messageIs("a reply", x, 3, 2, 1, 3, 9999);
         Scenes.messageIs("an update to the other one", x, 4, 0, 1, 4, 9999);
         Due.is("no more", x.count(2), 5);
-        DiffusingRoutes y = Scenes.row();
+        Counted y = Scenes.row();
         y.link(0, 1, 0);
         Scenes.steps(y, 1, 1, 1);
         Scenes.routerIs("3 owes 2", y, 3, 9999, 9999, 2, 1, 4, 4, 0);
@@ -522,7 +522,7 @@ public final class EdgesThreeTest {
 
     private static void goalAnswersQueries() {
         Due.about("The GOAL sends a REPLY to a QUERY, nothing else");
-        DiffusingRoutes x = new DiffusingRoutes();
+        Counted x = new Counted();
         x.link(0, 1, 5);
         x.link(0, 2, 5);
         x.link(1, 2, 1);
@@ -533,7 +533,7 @@ public final class EdgesThreeTest {
         Scenes.messageIs("the goal replies behind what waits", x, 1, 2, 0, 1, 0);
         Due.is("two wait", x.count(2), 2);
         Due.is("it has heard", x.between(0, 1, 1), 8);
-        DiffusingRoutes y = new DiffusingRoutes();
+        Counted y = new Counted();
         y.link(1, 0, 5);
         Scenes.steps(y, 0);
         Due.is("to an update it sends nothing", y.count(2), 1);
@@ -545,7 +545,7 @@ public final class EdgesThreeTest {
 
     private static void passiveOneHearsReply() {
         Due.about("A PASSIVE one DECIDES: for the sender of a QUERY, else for nobody");
-        DiffusingRoutes x = Scenes.asking();
+        Counted x = Scenes.asking();
         Scenes.steps(x, 1);
         x.cut(2);
         Due.law(x, "ranks 1;ranks 0 if kind=2");
@@ -559,7 +559,7 @@ public final class EdgesThreeTest {
         Due.about("An ACTIVE one: UPDATE: if the sender is its SUCCESSOR and BY it is more than its DISTANCE, it is WORSE");
         int[] costs = {1, 2, 3};
         for (int c : costs) {
-            DiffusingRoutes x = Scenes.row();
+            Counted x = Scenes.row();
             x.link(0, 1, 2);
             Scenes.rest(x);
             Due.is("2 is 3 far", x.router(2, 0), 3);
@@ -578,7 +578,7 @@ public final class EdgesThreeTest {
             Due.is("1 told", x.between(2, 1, 1), c);
             Scenes.routerIs("1 told " + c, x, 2, 11, 11, 1, 1, 10, 0, c == 3 ? 1 : 0);
         }
-        DiffusingRoutes y = Scenes.asking();
+        Counted y = Scenes.asking();
         y.link(2, 5, 1);
         y.link(3, 2, 40);
         Due.law(y, "ranks 1;ranks 0 if from=5");
@@ -589,7 +589,7 @@ public final class EdgesThreeTest {
 
     private static void activeOneHearsQuery() {
         Due.about("QUERY: from its SUCCESSOR: a reply is OWED to it, it is WORSE; from others: it sends a REPLY at once");
-        DiffusingRoutes x = Scenes.row();
+        Counted x = Scenes.row();
         x.link(1, 2, 10);
         x.link(0, 1, 0);
         Scenes.steps(x, 1);
@@ -605,12 +605,12 @@ public final class EdgesThreeTest {
 
     private static void activeOneHearsReply() {
         Due.about("REPLY: that is not OUT any more; if none is, it ENDS");
-        DiffusingRoutes x = Scenes.asking();
+        Counted x = Scenes.asking();
         Scenes.steps(x, 1, 1, 2);
         Scenes.routerIs("1 has answered", x, 2, 11, 11, 1, 1, 8, 0, 0);
         Scenes.steps(x, 1, 2, 2);
         Scenes.routerIs("both have", x, 2, 11, 11, 1, 0, 0, 0, 0);
-        DiffusingRoutes y = Scenes.row();
+        Counted y = Scenes.row();
         y.link(0, 5, 1);
         Scenes.rest(y);
         y.link(1, 2, 10);
@@ -632,7 +632,7 @@ public final class EdgesThreeTest {
 
     private static void timeStays() {
         Due.about("TIME is one more (999 stays)");
-        DiffusingRoutes x = Scenes.asking();
+        Counted x = Scenes.asking();
         x.terms(0, 997);
         Scenes.steps(x, 1);
         Due.is("998", x.count(13), 998);
@@ -643,7 +643,7 @@ public final class EdgesThreeTest {
         x.link(5, 6, 1);
         x.cut(3);
         Due.is("neither a link nor a cut is time", x.count(13), 999);
-        DiffusingRoutes y = Scenes.asking();
+        Counted y = Scenes.asking();
         y.terms(0, 0);
         y.cut(2);
         y.link(5, 6, 1);
@@ -652,7 +652,7 @@ public final class EdgesThreeTest {
 
     private static void cuts() {
         Due.about("To CUT an ACTIVE one: of all from which a reply is OUT what they TOLD is FAR, none is OUT, it is not WORSE, it ENDS");
-        DiffusingRoutes x = Scenes.asking();
+        Counted x = Scenes.asking();
         x.link(1, 2, 20);
         Scenes.steps(x, 1, 1, 2);
         Scenes.routerIs("worse, 3 is out", x, 2, 11, 11, 1, 1, 8, 0, 1);
@@ -661,7 +661,7 @@ public final class EdgesThreeTest {
         Due.is("what 1 told stays", x.between(2, 1, 1), 1);
         Scenes.routerIs("it is not worse, so it takes the least", x, 2, 21, 21, 1, 0, 0, 0, 0);
         Due.is("passive, it can't be cut again", x.cut(2), -3);
-        DiffusingRoutes y = new DiffusingRoutes();
+        Counted y = new Counted();
         y.link(0, 6, 1);
         y.step();
         for (int r = 1; r < 6; r++) {
@@ -677,7 +677,7 @@ public final class EdgesThreeTest {
 
     private static void fullByLinks() {
         Due.about("If there would be more than 400 MESSAGES at the end of a LINK's change, .. it can't be: all is as it was");
-        DiffusingRoutes x = Scenes.crowded(398);
+        Counted x = Scenes.crowded(398);
         Due.is("400 are not more than 400", x.link(3, 5, 1), 0);
         Due.is("400", x.count(2), 400);
         String before = Scenes.looks(x);
@@ -688,7 +688,7 @@ public final class EdgesThreeTest {
         Due.is("what can be undone stays", x.count(5), undone);
         Due.is("what is lost makes room for what is sent", x.link(0, 1, 0), x.between(0, 1, 0) + 5);
         Due.is("1 asks five", x.router(1, 4), 124);
-        DiffusingRoutes y = Scenes.crowdedAndAsking(399);
+        Counted y = Scenes.crowdedAndAsking(399);
         String then = Scenes.looks(y);
         Due.is("401 are more, too", y.link(3, 5, 1), -5);
         Scenes.same("refused", y, then);
@@ -696,7 +696,7 @@ public final class EdgesThreeTest {
 
     private static void fullBySteps() {
         Due.about("If there would be more than 400 MESSAGES at the end of .. a STEP, .. it can't be: all is as it was");
-        DiffusingRoutes x = Scenes.crowded(396);
+        Counted x = Scenes.crowded(396);
         x.link(5, 6, 1);
         x.link(3, 4, 1);
         Due.law(x, "ranks 1;ranks 0 if to=2");
@@ -712,14 +712,14 @@ public final class EdgesThreeTest {
         Due.is("what can be undone stays", x.count(5), undone);
         Due.is("undone", x.undo(), 1);
         Due.is("2 has not heard", x.router(2, 0), 9999);
-        DiffusingRoutes y = Scenes.crowded(400);
+        Counted y = Scenes.crowded(400);
         Due.is("to the goal there is room", y.step(), 0);
         Due.is("399", y.count(2), 399);
     }
 
     private static void fullByCuts() {
         Due.about("If there would be more than 400 MESSAGES at the end of .. a CUT, it can't be: all is as it was");
-        DiffusingRoutes x = Scenes.crowdedAndAsking(399);
+        Counted x = Scenes.crowdedAndAsking(399);
         String before = Scenes.looks(x);
         int undone = x.count(5);
         Due.is("401", x.cut(2), -5);

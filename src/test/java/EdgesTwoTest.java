@@ -39,7 +39,7 @@ public final class EdgesTwoTest {
     }
 
     private static void faultOf(boolean orders, String text, int want) {
-        DiffusingRoutes x = new DiffusingRoutes();
+        Counted x = new Counted();
         Due.type(x, text);
         Due.is("it is on the tape: " + text, x.count(6), text.length());
         int answer = orders ? x.orders() : x.law();
@@ -58,7 +58,7 @@ public final class EdgesTwoTest {
 
     /** The rank of an update from 3 to 5, FAR, one of two that wait; it is 17 o'clock, the mood is 6. */
     private static void rankIs(String law, int want) {
-        DiffusingRoutes x = new DiffusingRoutes();
+        Counted x = new Counted();
         x.link(3, 5, 7);
         x.terms(0, 17);
         x.terms(2, 6);
@@ -68,14 +68,14 @@ public final class EdgesTwoTest {
     }
 
     private static void ranIs(String orders, int want) {
-        DiffusingRoutes x = new DiffusingRoutes();
+        Counted x = new Counted();
         x.link(3, 5, 7);
         Due.is("orders " + orders, Due.orders(x, orders), want);
     }
 
     private static void tape() {
         Due.about("TEXTS are on a TAPE of at most 400 bytes");
-        DiffusingRoutes x = new DiffusingRoutes();
+        Counted x = new Counted();
         for (int i = 1; i <= 20; i++) {
             Due.is("feed", x.feed(-1, 0, 1, Integer.MIN_VALUE, Integer.MAX_VALUE), 20 * i);
         }
@@ -459,9 +459,9 @@ public final class EdgesTwoTest {
 
     private static void manyTexts() {
         Due.about("TEXTS are on a TAPE");
-        DiffusingRoutes x = new DiffusingRoutes();
+        Counted x = new Counted();
         String dear = "link 3 to 5 as " + "1+".repeat(39) + "1 if " + "not(".repeat(4) + "1=2 or 1=1" + ")".repeat(4);
-        for (int i = 0; i < 30; i++) {
+        for (int i = 0; i < 25; i++) {
             Due.is("as the first, so the last", Due.orders(x, dear + " and done=0"), i == 0 ? 1 : -3);
             Due.orders(x, "bars");
             Due.law(x, "?");
@@ -474,7 +474,7 @@ public final class EdgesTwoTest {
 
     private static void lawsAtMost() {
         Due.about("LAWS, 6 at most; one is in FORCE (NONE at first: no CLAUSE)");
-        DiffusingRoutes x = new DiffusingRoutes();
+        Counted x = new Counted();
         x.link(1, 2, 3);
         Due.is("none at first", x.count(12), -1);
         Due.is("it ranks 0", x.message(0, 4), 0);
@@ -505,7 +505,7 @@ public final class EdgesTwoTest {
         rankIs("bars", 0);
         rankIs("ranks 5 if 1=2", 0);
         rankIs("ranks 1/0", 0);
-        DiffusingRoutes x = new DiffusingRoutes();
+        Counted x = new Counted();
         x.link(1, 2, 3);
         x.link(3, 4, 3);
         Due.law(x, "ranks 100;ranks 99 if from = 3");
@@ -534,7 +534,7 @@ public final class EdgesTwoTest {
         Due.about("a change is BARRED, if \"bars\" HOLDS");
         String[] laws = {"bars if 1/0=1", "bars if 1=2", "ranks 1", "ranks 1/0", "bars if far=6 and waits=0", "bars if far>0-1 and kind>0-1"};
         for (String law : laws) {
-            DiffusingRoutes x = new DiffusingRoutes();
+            Counted x = new Counted();
             Due.law(x, law);
             x.force(0);
             Due.is("not barred by " + law, x.link(6, 5, 7), 0);
@@ -542,14 +542,14 @@ public final class EdgesTwoTest {
         String[] others = {"bars", "bars if 1=1", "bars;ranks 1/0", "bars if 1=2;bars", "bars;bars if 1=2", "bars if kind=0-1",
             "bars if from=6 and to=5 and far=7 and waits=0 and time=0 and mood=0"};
         for (String law : others) {
-            DiffusingRoutes x = new DiffusingRoutes();
+            Counted x = new Counted();
             Due.law(x, law);
             x.force(0);
             Due.is("barred by " + law, x.link(6, 5, 7), -3);
             x.force(-1);
             Due.is("not if it is not in force", x.link(6, 5, 7), 0);
         }
-        DiffusingRoutes x = new DiffusingRoutes();
+        Counted x = new Counted();
         Due.law(x, "bars if far = 0");
         x.link(1, 2, 3);
         x.force(0);
@@ -559,7 +559,7 @@ public final class EdgesTwoTest {
 
     private static void words() {
         Due.about("(kind 0, 1, 2; far: its DISTANCE; waits: how many MESSAGES do)");
-        DiffusingRoutes x = Scenes.asking();
+        Counted x = Scenes.asking();
         Due.law(x, "ranks kind*10+waits");
         x.force(0);
         Due.is("a query, one of two", x.message(0, 4), 12);
@@ -568,7 +568,7 @@ public final class EdgesTwoTest {
         rankIs("ranks kind", 0);
         rankIs("ranks far - 9*1000-999+42", 42);
         rankIs("ranks time + mood", 23);
-        DiffusingRoutes y = Scenes.crowded(400);
+        Counted y = Scenes.crowded(400);
         Due.law(y, "ranks waits - 350");
         y.force(0);
         Due.is("400 wait", y.message(0, 4), 50);
@@ -605,23 +605,27 @@ public final class EdgesTwoTest {
             ordersFault("step if active " + bad + "=0", 15);
         }
         ordersFault("step if active 000006=1", -1);
-        DiffusingRoutes x = Scenes.asking();
+        Counted x = Scenes.asking();
         Due.is("active is 1", Due.orders(x, "cut 2 if active 2=1;cut 2 if active 2>1;cut 2 if active 1+active 3>0"), 1);
         Due.is("it was cut", x.router(2, 3), 0);
+        Counted y = Scenes.row();
+        y.link(0, 1, 2);
+        Scenes.routerIs("its bound is another one", y, 1, 2, 1);
+        Due.is("distance is not the bound", Due.orders(y, "step times 2 if distance 1=2;step if distance 1=1"), 2);
     }
 
     private static void doneAndLatest() {
         Due.about("done: how many were run in this TEXT, latest: what the latest step in it told (-1: none)");
-        DiffusingRoutes x = new DiffusingRoutes();
+        Counted x = new Counted();
         Due.is("three links", Due.orders(x, "link 0 to done+1 as 1 times 3"), 3);
         Due.is("none is done at first, once more", Due.orders(x, "link 0 to done+4 as 1"), 1);
         Due.is("no step: -1", Due.orders(x, "link 0 to 5 as 1 if latest=0-1;link 0 to 6 as 1 if latest=0-1"), 2);
         Due.is("what was not run is not done", Due.orders(x, "step if 1=2;step if done=0;step if done=1;step if done=0"), 2);
         Due.is("a link is no step", Due.orders(x, "step if latest=0-1;link 1 to 2 as 1 if latest=0;step if latest=0 and done=2"), 3);
         Due.is("none in this text", Due.orders(x, "step if latest=0-1;step if latest=0-1"), 1);
-        DiffusingRoutes y = Scenes.asking();
+        Counted y = Scenes.asking();
         Due.is("a query told 1, then a reply 2", Due.orders(y, "step times 20 if latest<2 and waits>0"), 3);
-        DiffusingRoutes z = Scenes.asking();
+        Counted z = Scenes.asking();
         Due.is("a cut is no step, either", Due.orders(z, "step;cut 2 if latest=1;link 5 to 6 as 1 if latest=1"), 3);
     }
 
@@ -659,7 +663,7 @@ public final class EdgesTwoTest {
             "cut 2;cut 2", "link 0 to 1 as 0;link 1/0 to 1 as 1", "step times 20"};
         int[] clauses = {3, 1, 1, 1, 0};
         for (int i = 0; i < texts.length; i++) {
-            DiffusingRoutes x = Scenes.asking();
+            Counted x = Scenes.asking();
             int undone = x.count(5);
             String before = Scenes.looks(x);
             Due.is("orders " + texts[i], Due.orders(x, texts[i]), -3);
@@ -669,7 +673,7 @@ public final class EdgesTwoTest {
             Due.is("the latest was a link", x.undo(), 0);
             Due.is("it cost", x.between(1, 2, 0), 1);
         }
-        DiffusingRoutes x = Scenes.crowded(398);
+        Counted x = Scenes.crowded(398);
         String before = Scenes.looks(x);
         Due.is("room for one, none for two", Due.orders(x, "link 3 to 5 as 1;link 4 to 5 as 1"), -3);
         Due.is("at the second", x.stopped(), 1);

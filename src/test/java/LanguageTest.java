@@ -140,7 +140,8 @@ public final class LanguageTest {
             int[] text = "ranks 1;bars if 1=2;".chars().toArray();
             int[] five = {Due.four(text, 0), Due.four(text, 4), Due.four(text, 8), Due.four(text, 12), Due.four(text, 16)};
             before = beans.getThreadAllocatedBytes(thread);
-            for (int i = 0; i < 128; i++) {
+            // Fourteen calls each time: as many as an object is used for.
+            for (int i = 0; i < 36; i++) {
                 x.feed(five[0], five[1], five[2], five[3], five[4]);
                 x.end(19);
                 if (i % 2 == 0) {
@@ -151,7 +152,7 @@ public final class LanguageTest {
                 busies(x, i);
             }
             long used = beans.getThreadAllocatedBytes(thread) - before;
-            must("calls make little: " + used, used < 60000);
+            must("calls make little: " + used, used < 16000);
         }
     }
 

@@ -17,8 +17,8 @@ public final class LooksTest {
     }
 
     /** 0 - 1 - 2 in a row, all told: 5 and 3 far. */
-    private static DiffusingRoutes rested() {
-        DiffusingRoutes x = new DiffusingRoutes();
+    private static Counted rested() {
+        Counted x = new Counted();
         x.link(0, 1, 5);
         x.link(1, 2, 3);
         for (int i = 0; i < 7; i++) {
@@ -28,7 +28,7 @@ public final class LooksTest {
     }
 
     private static void newObject() {
-        DiffusingRoutes x = new DiffusingRoutes();
+        Counted x = new Counted();
         Due.is("NONE", DiffusingRoutes.NONE, -1);
         Due.is("FAR", DiffusingRoutes.FAR, 9999);
         int[] goal = {0, 0, -1, 0, 0, 0, 0, 0};
@@ -54,7 +54,7 @@ public final class LooksTest {
     }
 
     private static void router() {
-        DiffusingRoutes x = rested();
+        Counted x = rested();
         Due.is("router distance", x.router(2, 0), 8);
         Due.is("router bound", x.router(2, 1), 8);
         Due.is("router successor", x.router(2, 2), 1);
@@ -79,7 +79,7 @@ public final class LooksTest {
     }
 
     private static void between() {
-        DiffusingRoutes x = rested();
+        Counted x = rested();
         Due.is("costs", x.between(2, 1, 0), 3);
         Due.is("1 told 2", x.between(2, 1, 1), 5);
         Due.is("2 told 1", x.between(1, 2, 1), 8);
@@ -102,7 +102,7 @@ public final class LooksTest {
     }
 
     private static void message() {
-        DiffusingRoutes x = rested();
+        Counted x = rested();
         x.link(4, 3, 2);
         x.link(0, 1, 0);
         int[][] due = {{0, 4, 3, 9999, 0}, {0, 3, 4, 9999, 0}, {1, 1, 2, 9999, 0}};
@@ -122,7 +122,7 @@ public final class LooksTest {
     }
 
     private static void path() {
-        DiffusingRoutes x = rested();
+        Counted x = rested();
         int[] due = {2, 1, 0, -1, -1, -1, -1, -1, -1};
         for (int i = 0; i < due.length; i++) {
             Due.is("path(2, " + i + ")", x.path(2, i), due[i]);
@@ -132,14 +132,14 @@ public final class LooksTest {
         Due.is("no such place", x.path(2, -1), -1);
         Due.is("no router", x.path(-1, 0), -1);
         Due.is("no router", x.path(7, 0), -1);
-        DiffusingRoutes round = looped();
+        Counted round = looped();
         Due.is("a loop's path goes on", round.path(1, 7), 2);
         Due.is("but not beyond 7", round.path(1, 8), -1);
     }
 
     /** 2 is cut before 1 heard that the goal is lost: 2 takes what 1 has of it, told too late. */
-    private static DiffusingRoutes looped() {
-        DiffusingRoutes x = new DiffusingRoutes();
+    private static Counted looped() {
+        Counted x = new Counted();
         x.link(0, 2, 1);
         x.step();
         x.link(2, 1, 3);
@@ -154,8 +154,8 @@ public final class LooksTest {
 
     private static void loops() {
         Due.is("no loops", rested().loops(), 0);
-        Due.is("new ones have none", new DiffusingRoutes().loops(), 0);
-        DiffusingRoutes x = looped();
+        Due.is("new ones have none", new Counted().loops(), 0);
+        Counted x = looped();
         Due.is("1 and 2 are a loop", x.loops(), 6);
         Due.is("by 2", x.router(1, 2), 2);
         Due.is("by 1", x.router(2, 2), 1);
@@ -168,7 +168,7 @@ public final class LooksTest {
     }
 
     private static void least() {
-        DiffusingRoutes x = new DiffusingRoutes();
+        Counted x = new Counted();
         x.link(0, 6, 50);
         x.link(0, 1, 3);
         x.link(1, 2, 4);
@@ -186,7 +186,7 @@ public final class LooksTest {
     }
 
     private static void count() {
-        DiffusingRoutes x = rested();
+        Counted x = rested();
         Due.is("links", x.count(0), 2);
         Due.is("can be undone", x.count(5), 9);
         Due.is("time", x.count(13), 7);
@@ -212,7 +212,7 @@ public final class LooksTest {
     }
 
     private static void status() {
-        DiffusingRoutes x = new DiffusingRoutes();
+        Counted x = new Counted();
         x.link(0, 0, 1);
         Due.is("by -1", x.status(), -1);
         x.router(9, 9);

@@ -1,9 +1,13 @@
 import java.util.Random;
 
-/** Long runs of drawn calls, each answered by the class and by the model; then all that can be looked at. */
+/** Runs of drawn calls, each answered by the class and by the model; now and then, and last, all that can be looked at. */
 public final class ModelTest {
+    // The dearest act types two texts of twenty feeds each, and looks at twelve things at most.
+    private static final int DEAREST_ACT = 60;
+    // What is looked at aside is looked at behind all calls of the run, so some calls are left for that.
+    private static final int LEFT_ASIDE = 60;
     private final Random random;
-    private final DiffusingRoutes x = new DiffusingRoutes();
+    private final Counted x = new Counted();
     private final Model m = new Model();
     private final StringBuilder told = new StringBuilder();
     private boolean differs;
@@ -13,7 +17,7 @@ public final class ModelTest {
     }
 
     public static void main(String[] args) {
-        int runs = args.length > 0 ? Integer.parseInt(args[0]) : 400;
+        int runs = args.length > 0 ? Integer.parseInt(args[0]) : 1500;
         int from = args.length > 1 ? Integer.parseInt(args[1]) : 0;
         for (int run = from; run < from + runs; run++) {
             ModelTest test = new ModelTest(run);
@@ -56,7 +60,7 @@ public final class ModelTest {
         } else if (style == 3) {
             stars();
         }
-        for (int call = 0; call < 250 && !differs; call++) {
+        while (!differs && x.left() > DEAREST_ACT + LEFT_ASIDE) {
             if (style == 1 && chance(15)) {
                 crowds();
             } else if (style == 3 && chance(15)) {
@@ -64,9 +68,13 @@ public final class ModelTest {
             } else {
                 acts(style);
             }
-            if (!differs) {
+            glances();
+            if (!differs && chance(4)) {
                 looks();
             }
+        }
+        if (!differs) {
+            looks();
         }
     }
 
@@ -239,49 +247,83 @@ public final class ModelTest {
         same("compare(" + law + ")", x.compare(law), m.compare(law));
     }
 
+    /** Looks at the object itself, so that one that changes something is found by what comes behind it. */
+    private void glances() {
+        int r = number(0, 6);
+        int other = number(0, 6);
+        int what = number(0, 7);
+        int i = number(0, Math.max(0, m.count(2) - 1));
+        switch (upTo(12)) {
+            case 0:
+                same("router(" + r + ", " + what + ")", x.router(r, what), m.router(r, what));
+                break;
+            case 1:
+                same("between(" + r + ", " + other + ", " + what + ")", x.between(r, other, what), m.between(r, other, what));
+                break;
+            case 2:
+                same("message(" + i + ", " + what + ")", x.message(i, what), m.message(i, what));
+                break;
+            case 3:
+                same("path(" + r + ", " + what + ")", x.path(r, what), m.path(r, what));
+                break;
+            case 4:
+                same("least(" + r + ")", x.least(r), m.least(r));
+                break;
+            case 5:
+                same("loops()", x.loops(), m.loops());
+                same("canBe()", x.canBe(), m.canBe());
+                break;
+            case 6:
+                same("ask(" + what + ")", x.ask(what), m.ask(what));
+                break;
+            case 7:
+                same("drawn(" + r + ", " + what + ")", x.drawn(r, what), m.drawn(r, what));
+                break;
+            case 8:
+                int of = number(0, 15);
+                same("count(" + of + ")", x.count(of), m.count(of));
+                break;
+            case 9:
+                same("status()", x.status(), m.status());
+                break;
+            default:
+                break;
+        }
+    }
+
     private void looks() {
         for (int r = -1; r < 8; r++) {
             for (int i = -1; i < 9; i++) {
-                look("router", r, i, x.router(r, i), m.router(r, i));
-                look("path", r, i, x.path(r, i), m.path(r, i));
+                look("router", r, i, x.aside().router(r, i), m.router(r, i));
+                look("path", r, i, x.aside().path(r, i), m.path(r, i));
             }
             for (int i = -1; i < 4; i++) {
-                look("drawn", r, i, x.drawn(r, i), m.drawn(r, i));
+                look("drawn", r, i, x.aside().drawn(r, i), m.drawn(r, i));
             }
-            look("least", r, 0, x.least(r), m.least(r));
-            int other = upTo(9) - 1;
-            for (int i = -1; i < 6; i++) {
-                look("between .. " + other, r, i, x.between(r, other, i), m.between(r, other, i));
+            look("least", r, 0, x.aside().least(r), m.least(r));
+            for (int other = -1; other < 8; other++) {
+                int i = upTo(7) - 1;
+                look("between .. " + i, r, other, x.aside().between(r, other, i), m.between(r, other, i));
             }
         }
+        // Of each message two things, so that there are not too many looks, and what is no message.
         for (int i = -1; i <= m.count(2); i++) {
-            for (int what = -1; what < 6; what++) {
-                look("message", i, what, x.message(i, what), m.message(i, what));
+            for (int what : new int[] {upTo(4), upTo(7) - 1}) {
+                look("message", i, what, x.aside().message(i, what), m.message(i, what));
             }
         }
         for (int i = -1; i < 17; i++) {
-            look("count", i, 0, x.count(i), m.count(i));
+            look("count", i, 0, x.aside().count(i), m.count(i));
         }
-        same("blots()", x.blots(), m.blots());
-        same("fault()", x.fault(), m.fault());
-        same("stopped()", x.stopped(), m.stopped());
-        same("loops()", x.loops(), m.loops());
-        same("canBe()", x.canBe(), m.canBe());
         for (int i = -1; i < 3; i++) {
-            same("ask(" + i + ")", x.ask(i), m.ask(i));
+            look("ask", i, 0, x.aside().ask(i), m.ask(i));
         }
-        same("status()", x.status(), m.status());
-        forgetLooks();
-    }
-
-    /** A run that goes wrong is told by its acts; of looks only those that went wrong matter. */
-    private void forgetLooks() {
-        if (!differs) {
-            int from = told.indexOf("router(-1, -1) = ");
-            if (from >= 0) {
-                told.setLength(from);
-            }
-        }
+        look("blots", 0, 0, x.aside().blots(), m.blots());
+        look("fault", 0, 0, x.aside().fault(), m.fault());
+        look("stopped", 0, 0, x.aside().stopped(), m.stopped());
+        look("loops", 0, 0, x.aside().loops(), m.loops());
+        look("canBe", 0, 0, x.aside().canBe(), m.canBe());
+        look("status", 0, 0, x.aside().status(), m.status());
     }
 
     private String gap() {

@@ -13,7 +13,7 @@ public final class OrdersTest {
     }
 
     private static void runs() {
-        DiffusingRoutes x = new DiffusingRoutes();
+        Counted x = new Counted();
         Due.is("two links", Due.orders(x, "link 0 to 1 as 5;link 1 to 2 as 3"), 2);
         Due.is("links", x.count(0), 2);
         Due.is("by the one told first", x.message(0, 1), 0);
@@ -33,7 +33,7 @@ public final class OrdersTest {
     }
 
     private static void words() {
-        DiffusingRoutes x = new DiffusingRoutes();
+        Counted x = new Counted();
         Due.is("done counts what was run", Due.orders(x, "link 0 to done + 1 as done * 2 + 1 times 6"), 6);
         for (int r = 1; r < 7; r++) {
             Due.is("it costs", x.between(0, r, 0), 2 * r - 1);
@@ -59,7 +59,7 @@ public final class OrdersTest {
             "link 7 to 1 as 1", "link 0 to 1 as 1 / 0", "link 1 % 0 to 1 as 1", "link 0 to 1 as 0", "cut 1000 * 1000 * 1000 + 1",
             "link 1000 * 1000 * 1000 to 1 as 1"};
         for (String text : bad) {
-            DiffusingRoutes x = new DiffusingRoutes();
+            Counted x = new Counted();
             Due.is("it can't be: " + text, Due.orders(x, text), -3);
             Due.is("stopped at " + text, x.stopped(), 0);
             Due.is("no fault in " + text, x.fault(), -1);
@@ -73,7 +73,7 @@ public final class OrdersTest {
             Due.is("refused by -3", x.count(9), 2);
             Due.is("not if it is not asked for", Due.orders(x, text + " if 1 = 2"), 0);
         }
-        DiffusingRoutes x = new DiffusingRoutes();
+        Counted x = new Counted();
         Due.law(x, "bars if far > 40");
         x.force(0);
         Due.is("barred", Due.orders(x, "link 1 to 2 as 40;link 1 to 2 as 41"), -3);
@@ -84,7 +84,7 @@ public final class OrdersTest {
     }
 
     private static void undoStays() {
-        DiffusingRoutes x = new DiffusingRoutes();
+        Counted x = new Counted();
         x.link(1, 2, 3);
         x.link(3, 4, 3);
         x.step();
@@ -104,7 +104,7 @@ public final class OrdersTest {
     }
 
     private static void stopped() {
-        DiffusingRoutes x = new DiffusingRoutes();
+        Counted x = new Counted();
         Due.orders(x, "link 1 to 2 as 3;cut 5");
         Due.is("stopped", x.stopped(), 1);
         x.step();

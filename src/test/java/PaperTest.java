@@ -16,15 +16,15 @@ public final class PaperTest {
     }
 
     /** 1 at the goal, 2 behind it: seven steps till all is told. */
-    private static DiffusingRoutes row() {
-        DiffusingRoutes x = new DiffusingRoutes();
+    private static Counted row() {
+        Counted x = new Counted();
         x.link(0, 1, 5);
         x.link(1, 2, 3);
         return x;
     }
 
     private static void quiet() {
-        DiffusingRoutes x = row();
+        Counted x = row();
         Due.is("seven steps", x.quiet(), 7);
         int[] due = {0, 5, 8, 9999, 9999, 9999, 9999};
         for (int r = 0; r < 7; r++) {
@@ -44,7 +44,7 @@ public final class PaperTest {
 
     /** More than 999 steps, though never more than 400 messages: those from 1 come last. */
     private static void longQuiet() {
-        DiffusingRoutes x = new DiffusingRoutes();
+        Counted x = new Counted();
         x.link(0, 1, 5);
         for (int r = 2; r < 7; r++) {
             x.link(1, r, 10);
@@ -67,24 +67,31 @@ public final class PaperTest {
         Due.is("too long", x.then(1), -1);
         Due.is("it can't be in the order of age", x.compare(-1), -1);
         Due.is("too long", x.compare(0), -1);
-        int steps = 0;
-        while (steps < 2000 && x.quiet() == -1) {
-            x.step();
-            steps++;
-        }
+        int tooMany = 66 + 66 * 5 * 4 - 999;
+        manySteps(x, tooMany - 1);
+        Due.is("a step too long", x.quiet(), -1);
+        x.step();
         Due.is("as long as can be", x.quiet(), 999);
-        Due.is("steps till then", steps, 66 + 66 * 5 * 4 - 999);
         Due.is("then", x.then(2), 15);
-        for (int i = 0; i < 999; i++) {
-            Due.is("each step can be", x.step() < 0 ? 1 : 0, 0);
-        }
+        manySteps(x, 999);
         Due.is("quiet", x.count(2), 0);
         Due.is("time stays at its most", x.count(13), 999);
     }
 
+    /** By orders: one call a step would be more than an object is used for. */
+    private static void manySteps(Counted x, int steps) {
+        for (int left = steps; left > 0; left -= 240) {
+            StringBuilder text = new StringBuilder();
+            for (int part = Math.min(left, 240); part > 0; part -= 20) {
+                text.append(text.length() == 0 ? "" : ";").append("step times ").append(Math.min(part, 20));
+            }
+            Due.is("each step can be", Due.orders(x, text.toString()), Math.min(left, 240));
+        }
+    }
+
     /** 400 wait, and 400 behind the first step, too. */
     private static void fullQuiet() {
-        DiffusingRoutes x = new DiffusingRoutes();
+        Counted x = new Counted();
         x.link(0, 1, 5);
         x.step();
         for (int r = 2; r < 6; r++) {
@@ -101,11 +108,11 @@ public final class PaperTest {
     }
 
     private static void compare() {
-        DiffusingRoutes x = row();
+        Counted x = row();
         Due.is("without a law", x.compare(-1), 7);
         Due.is("no such law", x.compare(0), -1);
         Due.is("no such law", x.compare(-2), -1);
-        DiffusingRoutes y = new DiffusingRoutes();
+        Counted y = new Counted();
         Due.law(y, "ranks 2 - kind");
         y.link(0, 3, 42);
         y.step();
@@ -130,7 +137,7 @@ public final class PaperTest {
     }
 
     private static void few() {
-        DiffusingRoutes x = new DiffusingRoutes();
+        Counted x = new Counted();
         Due.is("none is sent", x.few(1, 0), 1000000000000L);
         Due.is("none is sent", x.few(20, 0), 1000000000000L);
         Due.is("none slips", x.few(1, 1), 900000000000L);
@@ -163,7 +170,7 @@ public final class PaperTest {
 
     private static void draws() {
         for (int seed = 0; seed <= 1000000; seed += 997) {
-            DiffusingRoutes x = new DiffusingRoutes();
+            Counted x = new Counted();
             long a = next(seed);
             long b = next(a);
             long c = next(b);
@@ -182,7 +189,7 @@ public final class PaperTest {
     }
 
     private static void days() {
-        DiffusingRoutes x = row();
+        Counted x = row();
         Due.is("seed below 0", x.days(-1, 1), -1);
         Due.is("seed too high", x.days(1000001, 1), -1);
         Due.is("no day", x.days(0, 0), -1);
@@ -198,15 +205,15 @@ public final class PaperTest {
         Due.is("on paper", x.count(13), 0);
         Due.law(x, "bars");
         x.force(0);
-        DiffusingRoutes empty = new DiffusingRoutes();
+        Counted empty = new Counted();
         Due.law(empty, "bars");
         empty.force(0);
         Due.is("no link by law, so nothing ever waits", empty.days(77, 60), 0);
     }
 
     private static void drawn() {
-        DiffusingRoutes x = row();
         for (int seed = 0; seed < 40; seed++) {
+            Counted x = row();
             Model m = new Model();
             m.link(0, 1, 5);
             m.link(1, 2, 3);
@@ -217,6 +224,8 @@ public final class PaperTest {
                 }
             }
         }
+        Counted x = row();
+        x.days(39, 60);
         int far = x.drawn(1, 0);
         x.days(-1, 5);
         x.quiet();

@@ -11,7 +11,7 @@ public final class RowsTest {
     }
 
     private static void terms() {
-        DiffusingRoutes x = new DiffusingRoutes();
+        Counted x = new Counted();
         int[] first = {0, 1, 0};
         int[] most = {999, 10, 9};
         for (int what = 0; what < 3; what++) {
@@ -33,7 +33,7 @@ public final class RowsTest {
     }
 
     private static void row() {
-        DiffusingRoutes x = new DiffusingRoutes();
+        Counted x = new Counted();
         Due.is("the tape is empty", x.row(), -6);
         Due.is("status", x.status(), -6);
         Due.type(x, 0, 1, 5, 1, 2, 3, 0, 1, 0, 2, 6, 50);
@@ -48,7 +48,7 @@ public final class RowsTest {
     }
 
     private static void blots() {
-        DiffusingRoutes x = new DiffusingRoutes();
+        Counted x = new Counted();
         Due.type(x, 1, 1, 5, 7, 1, 5, 255, 1, 5, 1, 2, 51, 1, 2, 0, 1, 2, 5, 1, 2, 5, 3);
         Due.is("one changed", x.row(), 1);
         Due.is("one alone, no router, too dear, so already, the end", x.blots(), 7);

@@ -3,15 +3,15 @@ final class Scenes {
     private Scenes() {
     }
 
-    static void rest(DiffusingRoutes x) {
+    static void rest(Counted x) {
         for (int i = 0; i < 999 && x.count(2) > 0; i++) {
             x.step();
         }
     }
 
     /** The goal, 1, 2, 3 in a row, each link costs 1, all told. */
-    static DiffusingRoutes row() {
-        DiffusingRoutes x = new DiffusingRoutes();
+    static Counted row() {
+        Counted x = new Counted();
         x.link(0, 1, 1);
         x.link(1, 2, 1);
         x.link(2, 3, 1);
@@ -20,8 +20,8 @@ final class Scenes {
     }
 
     /** As row(), but 2 has asked 1 and 3, and nothing is delivered yet. */
-    static DiffusingRoutes asking() {
-        DiffusingRoutes x = row();
+    static Counted asking() {
+        Counted x = row();
         x.link(1, 2, 10);
         return x;
     }
@@ -30,8 +30,8 @@ final class Scenes {
      * So many messages wait, an even number from 12 to 400. 1 is at the goal, its link costs 5 or 6; 2 to 6 are around it
      * and have heard nothing; the eldest message goes to the goal, which never answers it.
      */
-    static DiffusingRoutes crowded(int messages) {
-        DiffusingRoutes x = new DiffusingRoutes();
+    static Counted crowded(int messages) {
+        Counted x = new Counted();
         x.link(0, 1, 5);
         x.step();
         for (int r = 2; r < 7; r++) {
@@ -48,8 +48,8 @@ final class Scenes {
     }
 
     /** 2 is active, has asked 1 and 3, and so many messages wait: from 7 on, each seventh less two, or two more of it. */
-    static DiffusingRoutes crowdedAndAsking(int messages) {
-        DiffusingRoutes x = new DiffusingRoutes();
+    static Counted crowdedAndAsking(int messages) {
+        Counted x = new Counted();
         x.link(0, 1, 5);
         for (int r : new int[] {2, 4, 5, 6}) {
             x.link(1, r, 10);
@@ -73,8 +73,8 @@ final class Scenes {
      * is delivered first. What is known goes around 1 to 6, four links farther each time, and those behind it are parted
      * from each other, so that they forget it and can be told again.
      */
-    static DiffusingRoutes nearlyFar() {
-        DiffusingRoutes x = new DiffusingRoutes();
+    static Counted nearlyFar() {
+        Counted x = new Counted();
         Due.law(x, "ranks far/101");
         x.force(0);
         x.link(0, 1, 50);
@@ -100,8 +100,8 @@ final class Scenes {
     }
 
     /** Nothing waits, though 1 waits for 3, 3 for 1 and 2 for 1: 1 owes 2 and 3 a reply, 3 owes 1 one. */
-    static DiffusingRoutes stuck() {
-        DiffusingRoutes x = new DiffusingRoutes();
+    static Counted stuck() {
+        Counted x = new Counted();
         x.link(0, 1, 8);
         rest(x);
         x.link(2, 0, 7);
@@ -126,49 +126,50 @@ final class Scenes {
         return (router - 1) % 6 + 1;
     }
 
-    static void routerIs(String when, DiffusingRoutes x, int router, int... due) {
+    static void routerIs(String when, Counted x, int router, int... due) {
         for (int what = 0; what < due.length; what++) {
             Due.is(when + ": router(" + router + ", " + what + ")", x.router(router, what), due[what]);
         }
     }
 
-    static void messageIs(String when, DiffusingRoutes x, int i, int... due) {
+    static void messageIs(String when, Counted x, int i, int... due) {
         for (int what = 0; what < due.length; what++) {
             Due.is(when + ": message(" + i + ", " + what + ")", x.message(i, what), due[what]);
         }
     }
 
-    static void steps(DiffusingRoutes x, int... kinds) {
+    static void steps(Counted x, int... kinds) {
         for (int i = 0; i < kinds.length; i++) {
             Due.is("step " + i, x.step(), kinds[i]);
         }
     }
 
     /** All that can be looked at but the tape, refusals, faults, blots, stops, days and how many can be undone. */
-    static String looks(DiffusingRoutes x) {
+    static String looks(Counted x) {
         StringBuilder all = new StringBuilder();
         for (int r = 0; r < 7; r++) {
             for (int what = 0; what < 8; what++) {
-                all.append(x.router(r, what)).append(' ');
+                all.append(x.aside().router(r, what)).append(' ');
             }
             for (int o = 0; o < 7; o++) {
                 for (int what = 0; what < 5; what++) {
-                    all.append(x.between(r, o, what)).append(' ');
+                    all.append(x.aside().between(r, o, what)).append(' ');
                 }
             }
         }
-        for (int i = 0; i < x.count(2); i++) {
+        int waiting = x.aside().count(2);
+        for (int i = 0; i < waiting; i++) {
             for (int what = 0; what < 5; what++) {
-                all.append(x.message(i, what)).append(' ');
+                all.append(x.aside().message(i, what)).append(' ');
             }
         }
         for (int what : new int[] {0, 1, 2, 3, 4, 12, 13, 14, 15}) {
-            all.append(x.count(what)).append(' ');
+            all.append(x.aside().count(what)).append(' ');
         }
-        return all.append(x.canBe()).toString();
+        return all.append(x.aside().canBe()).toString();
     }
 
-    static void same(String when, DiffusingRoutes x, String before) {
+    static void same(String when, Counted x, String before) {
         Due.is(when + ": all is as it was", looks(x).equals(before) ? 1 : 0, 1);
     }
 }

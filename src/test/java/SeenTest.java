@@ -13,7 +13,7 @@ public final class SeenTest {
     }
 
     private static void seen() {
-        DiffusingRoutes x = new DiffusingRoutes();
+        Counted x = new Counted();
         x.link(1, 2, 3);
         for (int i = 1; i <= 6; i++) {
             Due.is("seen", x.seen(0, 1), i);
@@ -32,8 +32,8 @@ public final class SeenTest {
     }
 
     /** 1 at the goal and 2 behind it, rested; 3 has asked 4 and 5. */
-    private static DiffusingRoutes some() {
-        DiffusingRoutes x = new DiffusingRoutes();
+    private static Counted some() {
+        Counted x = new Counted();
         x.link(0, 1, 5);
         x.link(1, 2, 3);
         x.link(0, 3, 5);
@@ -47,7 +47,7 @@ public final class SeenTest {
     }
 
     private static void seenIs(int fact, int n, int want) {
-        DiffusingRoutes x = some();
+        Counted x = some();
         x.seen(fact, n);
         Due.is("it can be by " + fact + " is " + n, x.canBe(), want);
     }
@@ -66,7 +66,7 @@ public final class SeenTest {
         seenIs(3, 1, 4);
         seenIs(3, 3, 16 | 32);
         seenIs(3, 6, 0);
-        DiffusingRoutes x = some();
+        Counted x = some();
         Due.is("nothing seen", x.canBe(), 127);
         x.seen(3, 0);
         x.seen(0, 2);
@@ -82,7 +82,7 @@ public final class SeenTest {
     }
 
     private static void ask() {
-        DiffusingRoutes x = some();
+        Counted x = some();
         // Neighbours 1,2,1,2,1,1,0: four alike; active: six; out: six; successors -,0,1,0,3,3,-: two.
         Due.is("the successor", x.ask(0), 3);
         Due.is("two are left at most", x.ask(1), 2);
@@ -96,12 +96,12 @@ public final class SeenTest {
         Due.is("two are left", x.ask(1), 2);
         Due.is("no such what", x.ask(2), -1);
         Due.is("no such what", x.ask(-1), -1);
-        Due.is("all are alike in all", new DiffusingRoutes().ask(0), 0);
-        Due.is("all are left", new DiffusingRoutes().ask(1), 7);
+        Due.is("all are alike in all", new Counted().ask(0), 0);
+        Due.is("all are left", new Counted().ask(1), 7);
     }
 
     private static void image() {
-        DiffusingRoutes x = some();
+        Counted x = some();
         Due.is("no such image", x.image(-1), -1);
         Due.is("no such image", x.image(2), -1);
         Due.is("no such image", x.back(2), -1);
@@ -156,7 +156,7 @@ public final class SeenTest {
     }
 
     private static void imagesKeepLaws() {
-        DiffusingRoutes x = new DiffusingRoutes();
+        Counted x = new Counted();
         x.link(1, 2, 3);
         x.image(0);
         Due.law(x, "ranks 5");

@@ -17,7 +17,7 @@ public final class TextsTest {
     }
 
     private static void tape() {
-        DiffusingRoutes x = new DiffusingRoutes();
+        Counted x = new Counted();
         for (int i = 1; i <= 20; i++) {
             Due.is("feed", x.feed(0, 0, 0, 0, 0), 20 * i);
         }
@@ -42,7 +42,7 @@ public final class TextsTest {
     }
 
     private static void faultOf(boolean orders, String text, int want) {
-        DiffusingRoutes x = new DiffusingRoutes();
+        Counted x = new Counted();
         Due.type(x, text);
         int answer = orders ? x.orders() : x.law();
         Due.is("fault of " + text, x.fault(), want);
@@ -157,7 +157,7 @@ public final class TextsTest {
     }
 
     private static void faultStays() {
-        DiffusingRoutes x = new DiffusingRoutes();
+        Counted x = new Counted();
         Due.law(x, "ranks");
         Due.is("fault", x.fault(), 5);
         x.row();
@@ -176,7 +176,7 @@ public final class TextsTest {
     }
 
     private static void laws() {
-        DiffusingRoutes x = new DiffusingRoutes();
+        Counted x = new Counted();
         x.link(1, 2, 3);
         for (int i = 0; i < 6; i++) {
             Due.is("law", Due.law(x, "ranks " + i), i);
@@ -192,7 +192,7 @@ public final class TextsTest {
     }
 
     private static void force() {
-        DiffusingRoutes x = new DiffusingRoutes();
+        Counted x = new Counted();
         Due.law(x, "ranks 4");
         Due.law(x, "ranks 5");
         x.link(1, 2, 3);
@@ -210,7 +210,7 @@ public final class TextsTest {
     }
 
     private static void rankOf(String law, int want) {
-        DiffusingRoutes x = new DiffusingRoutes();
+        Counted x = new Counted();
         x.link(3, 5, 7);
         x.terms(0, 17);
         x.terms(2, 6);
@@ -264,7 +264,7 @@ public final class TextsTest {
     }
 
     private static void barred(String law, int one, int other, int costs, int want) {
-        DiffusingRoutes x = new DiffusingRoutes();
+        Counted x = new Counted();
         x.link(5, 6, 9);
         Due.law(x, law);
         x.force(0);
