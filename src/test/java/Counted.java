@@ -4,7 +4,7 @@ import java.util.function.ToLongFunction;
 
 /**
  * An object that is used for at most 512 calls, as the document has it: what later calls answer is free, so no test may
- * ask for it. All tests use their objects by this.
+ * ask for it. All tests use their objects by this, but for LanguageTest and ReadmeTest, where the calls can be counted.
  */
 final class Counted {
     static final int MOST_CALLS = 512;
